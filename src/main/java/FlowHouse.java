@@ -169,15 +169,15 @@ public final class FlowHouse {
     public int ruleAt(int policy, int at, int rule, int what)
             throws IndexOutOfBoundsException, IllegalArgumentException {
         needPolicyAt(policy, at);
-        Policy asked = store.policy(policy);
-        needIndex(rule, asked.rulesAt(at));
+        Rows asked = store.policy(policy).rulesFor(at);
+        needIndex(rule, asked.size());
         needWithin(what, 2);
-        return what == 0 ? asked.maskOf(at, rule) : what == 1 ? asked.valueOf(at, rule) : asked.actionsOf(at, rule);
+        return asked.get(rule, what);
     }
 
     public int rules(int policy, int at) throws IndexOutOfBoundsException {
         needPolicyAt(policy, at);
-        return store.policy(policy).rulesAt(at);
+        return store.policy(policy).rulesFor(at).size();
     }
 
     public int actionAt(int policy, int at, int row, int index, int what)
@@ -698,23 +698,21 @@ public final class FlowHouse {
      * each field, what is written plus 1, or 0 for nothing, so that the order of the numbers is that of the actions.
      */
     private static final class Policy {
+        /** The columns of a rule: its pattern, how many actions it has, and these. */
+        private static final int MASK = 0, VALUE = 1, SIZE = 2, ACTIONS = 3, COLUMNS = ACTIONS + WIDEST;
         private static final int[] CARD_SHIFT = {18, 13, 8, 4, 0};
         private static final int[] CARD_MOST = {7, 31, 31, 15, 15};
 
-        private final int room;
-        private final int[] howMany = new int[MOST_SWITCHES];
-        private final int[] masks;
-        private final int[] values;
-        private final int[] sizes;
-        private final int[] actions;
+        private final Rows[] rules = new Rows[MOST_SWITCHES];
+        /** For each switch, the one whose rows tell its rules: many switches have the same. */
+        private final int[] teller = new int[MOST_SWITCHES];
+        private final Rows noRules = new Rows(COLUMNS, 1);
 
         Policy(int room) {
-            this.room = Math.max(0, room);
-            int all = MOST_SWITCHES * this.room;
-            masks = new int[all];
-            values = new int[all];
-            sizes = new int[all];
-            actions = new int[all * WIDEST];
+            for (int at = 0; at < rules.length && at < teller.length; at++) {
+                rules[at] = new Rows(COLUMNS, room);
+                teller[at] = at;
+            }
         }
 
         static int fieldOf(int card, int field) {
@@ -744,11 +742,11 @@ public final class FlowHouse {
         }
 
         static int headerBy(int card, int header) {
-            int result = header & ~writtenBy(card);
+            int result = header;
             for (int f = PORT + 1; f < FIELDS; f++) {
                 int value = fieldOf(card, f);
                 if (value != NONE) {
-                    result |= value << ROW_SHIFT[f];
+                    result = result & ~(ROW_MOST[f] << ROW_SHIFT[f]) | value << ROW_SHIFT[f];
                 }
             }
             return result;
@@ -763,33 +761,17 @@ public final class FlowHouse {
             return 0;
         }
 
-        int rulesAt(int at) {
-            return at >= 0 && at < howMany.length ? howMany[at] : 0;
-        }
-
-        private int indexOf(int at, int rule) {
-            return rule >= 0 && rule < rulesAt(at) ? at * room + rule : NONE;
-        }
-
-        int maskOf(int at, int rule) {
-            int i = indexOf(at, rule);
-            return i >= 0 && i < masks.length ? masks[i] : 0;
-        }
-
-        int valueOf(int at, int rule) {
-            int i = indexOf(at, rule);
-            return i >= 0 && i < values.length ? values[i] : 0;
+        Rows rulesFor(int at) {
+            int told = at >= 0 && at < teller.length ? teller[at] : NONE;
+            return told >= 0 && told < rules.length ? rules[told] : noRules;
         }
 
         int actionsOf(int at, int rule) {
-            int i = indexOf(at, rule);
-            return i >= 0 && i < sizes.length ? sizes[i] : 0;
+            return rulesFor(at).get(rule, SIZE);
         }
 
         int action(int at, int rule, int index) {
-            int i = indexOf(at, rule) * WIDEST + index;
-            boolean isThere = index >= 0 && index < actionsOf(at, rule) && i >= 0 && i < actions.length;
-            return isThere ? actions[i] : 0;
+            return rulesFor(at).get(rule, ACTIONS + index);
         }
 
         /**
@@ -797,10 +779,11 @@ public final class FlowHouse {
          * less than NONE if a further bit must be known: NONE less this bit.
          */
         int fit(int at, int known, int row) {
-            int end = indexOf(at, rulesAt(at) - 1);
-            for (int i = indexOf(at, 0), rule = 0; i >= 0 && i <= end && i < masks.length; i++, rule++) {
-                if (((values[i] ^ row) & masks[i] & known) == 0) {
-                    int open = masks[i] & ~known;
+            Rows its = rulesFor(at);
+            for (int rule = 0; rule < its.size(); rule++) {
+                int mask = its.get(rule, MASK);
+                if (((its.get(rule, VALUE) ^ row) & mask & known) == 0) {
+                    int open = mask & ~known;
                     return open == 0 ? rule : NONE - highest(open);
                 }
             }
@@ -808,25 +791,26 @@ public final class FlowHouse {
         }
 
         int withPattern(int at, int mask, int value) {
-            for (int rule = 0; rule < rulesAt(at); rule++) {
-                if (maskOf(at, rule) == mask && valueOf(at, rule) == value) {
+            Rows its = rulesFor(at);
+            for (int rule = 0; rule < its.size(); rule++) {
+                if (its.get(rule, MASK) == mask && its.get(rule, VALUE) == value) {
                     return rule;
                 }
             }
             return NONE;
         }
 
+        /** Whether it has a rule of another policy, with the same pattern and actions, for a switch. */
         boolean hasRuleOf(int at, Policy other, int otherRule) {
-            int rule = withPattern(at, other.maskOf(at, otherRule), other.valueOf(at, otherRule));
-            if (rule == NONE || actionsOf(at, rule) != other.actionsOf(at, otherRule)) {
-                return false;
-            }
-            for (int i = 0; i < actionsOf(at, rule); i++) {
-                if (action(at, rule, i) != other.action(at, otherRule, i)) {
+            Rows its = rulesFor(at);
+            Rows others = other.rulesFor(at);
+            int rule = withPattern(at, others.get(otherRule, MASK), others.get(otherRule, VALUE));
+            for (int column = 0; column < COLUMNS && rule != NONE; column++) {
+                if (its.get(rule, column) != others.get(otherRule, column)) {
                     return false;
                 }
             }
-            return true;
+            return rule != NONE;
         }
 
         /** Whether an action makes a copy of one with this header: none ahead of it makes the same one. */
@@ -841,35 +825,26 @@ public final class FlowHouse {
             return true;
         }
 
-        /** Takes the rules for a switch from rows of a mask, a value, a number of actions, and these. */
         void keepRules(int at, Rows found) {
-            if (at < 0 || at >= howMany.length || found.size() > room) {
+            if (at < 0 || at >= teller.length) {
                 return;
             }
-            howMany[at] = found.size();
+            teller[at] = at;
+            Rows its = rulesFor(at);
+            its.cutTo(0);
             for (int rule = 0; rule < found.size(); rule++) {
-                int i = at * room + rule;
-                if (i < masks.length && i < values.length && i < sizes.length) {
-                    masks[i] = found.get(rule, Compiler.MASK);
-                    values[i] = found.get(rule, Compiler.VALUE);
-                    sizes[i] = found.get(rule, Compiler.SIZE);
-                }
-                for (int j = 0; j < WIDEST && i * WIDEST + j < actions.length; j++) {
-                    actions[i * WIDEST + j] = found.get(rule, Compiler.ACTIONS + j);
+                its.add(0, 0, 0, 0);
+                for (int column = 0; column < COLUMNS; column++) {
+                    its.set(rule, column, found.get(rule, column));
                 }
             }
         }
 
-        void copyRules(int from, int to) {
-            if (from < 0 || from >= howMany.length || to < 0 || to >= howMany.length) {
-                return;
+        /** Lets a switch have the rules of another one. */
+        void shareRules(int from, int to) {
+            if (from >= 0 && from < teller.length && to >= 0 && to < teller.length) {
+                teller[to] = teller[from];
             }
-            howMany[to] = howMany[from];
-            System.arraycopy(masks, from * room, masks, to * room, room);
-            System.arraycopy(values, from * room, values, to * room, room);
-            System.arraycopy(sizes, from * room, sizes, to * room, room);
-            int cards = room * WIDEST;
-            System.arraycopy(actions, from * cards, actions, to * cards, cards);
         }
     }
 
@@ -879,7 +854,7 @@ public final class FlowHouse {
         private final long[] policyNames = new long[MOST_POLICIES];
         private final Tree[] slices = new Tree[MOST_POLICIES];
         private final long[] sliceNames = new long[MOST_POLICIES];
-        private final Policy nothing = new Policy(0);
+        private final Policy nothing = new Policy(1);
         private int policyCount;
         private int sliceCount;
 
@@ -895,7 +870,7 @@ public final class FlowHouse {
                 return nothing;
             }
             if (policies[number] == null) {
-                policies[number] = new Policy(MOST_RULES);
+                policies[number] = new Policy(4);
             }
             return policies[number];
         }
@@ -951,27 +926,35 @@ public final class FlowHouse {
         }
 
         /** What a test tells of a card made from a row of which some bits are known (the others are 0 in it). */
-        int judge(int node, int card, int known, int row) {
-            return judgeDeep(node, card, known, row, 0);
-        }
-
-        private int judgeDeep(int node, int card, int known, int row, int depth) {
+        private int judge(int node, int card, int known, int row, int depth) {
+            int kind = nodes.get(node, KIND);
             int a = nodes.get(node, A);
             if (depth > DEEPEST_NODE) {
                 return OPEN;
             }
-            switch (nodes.get(node, KIND)) {
+            switch (kind) {
                 case FACT:
-                    return judgeFact(node, a, card, known, row);
+                    if (a < 0 || a >= FIELDS) {
+                        return NO;
+                    }
+                    int written = a == PORT ? NONE : Policy.fieldOf(card, a);
+                    int low = written != NONE ? written : row >> ROW_SHIFT[a] & ROW_MOST[a];
+                    int high = written != NONE ? written : low | ~known >> ROW_SHIFT[a] & ROW_MOST[a];
+                    int least = nodes.get(node, B);
+                    int most = nodes.get(node, C);
+                    if (high < least || low > most) {
+                        return NO;
+                    }
+                    return low >= least && high <= most ? YES : OPEN;
                 case NOT:
-                    int told = judgeDeep(a, card, known, row, depth + 1);
+                    int told = judge(a, card, known, row, depth + 1);
                     return told == OPEN ? OPEN : YES - told;
                 case ALL:
                 case SOME:
-                    int deciding = nodes.get(node, KIND) == ALL ? NO : YES;
+                    int deciding = kind == ALL ? NO : YES;
                     int result = YES - deciding;
                     for (int i = a, n = 0; i != NONE && n < TEXT_ROOM; i = nodes.get(i, NEXT), n++) {
-                        int one = judgeDeep(i, card, known, row, depth + 1);
+                        int one = judge(i, card, known, row, depth + 1);
                         if (one == deciding) {
                             return deciding;
                         }
@@ -983,34 +966,12 @@ public final class FlowHouse {
             }
         }
 
-        private int judgeFact(int node, int field, int card, int known, int row) {
-            if (field < 0 || field >= FIELDS) {
-                return NO;
-            }
-            int low = field == PORT ? NONE : Policy.fieldOf(card, field);
-            int high = low;
-            if (low == NONE) {
-                low = row >> ROW_SHIFT[field] & ROW_MOST[field];
-                high = low | ~known >> ROW_SHIFT[field] & ROW_MOST[field];
-            }
-            int least = nodes.get(node, B);
-            int most = nodes.get(node, C);
-            if (high < least || low > most) {
-                return NO;
-            }
-            return low >= least && high <= most ? YES : OPEN;
-        }
-
         boolean holdsFor(int header) {
-            return judge(root, 0, ROWS - 1, header) == YES;
+            return judge(root, 0, ROWS - 1, header, 0) == YES;
         }
 
         /** The number of cards that a policy can make of one, but 9 for all above 8. */
-        int widthOf(int node) {
-            return widthDeep(node, 0);
-        }
-
-        private int widthDeep(int node, int depth) {
+        private int widthOf(int node, int depth) {
             int kind = nodes.get(node, KIND);
             int a = nodes.get(node, A);
             int b = nodes.get(node, B);
@@ -1020,14 +981,14 @@ public final class FlowHouse {
             }
             switch (kind) {
                 case CHOICE:
-                    return Math.max(widthDeep(b, depth + 1), widthDeep(c, depth + 1));
+                    return Math.max(widthOf(b, depth + 1), widthOf(c, depth + 1));
                 case PLACES:
-                    return widthDeep(b, depth + 1);
+                    return widthOf(b, depth + 1);
                 case ROW:
                 case SUM:
                     int width = kind == ROW ? 1 : 0;
                     for (int i = a, n = 0; i != NONE && n < TEXT_ROOM; i = nodes.get(i, NEXT), n++) {
-                        int one = widthDeep(i, depth + 1);
+                        int one = widthOf(i, depth + 1);
                         width = Math.min(WIDEST + 1, kind == ROW ? width * one : width + one);
                     }
                     return width;
@@ -1052,11 +1013,7 @@ public final class FlowHouse {
         }
 
         /** Marks for each field the values that a test of the policy tells from the value below. */
-        void markCuts(int node, int at, int[] cuts) {
-            markDeep(node, at, cuts, 0);
-        }
-
-        private void markDeep(int node, int at, int[] cuts, int depth) {
+        private void markCuts(int node, int at, int[] cuts, int depth) {
             if (node == NONE || depth > DEEPEST_NODE) {
                 return;
             }
@@ -1069,12 +1026,12 @@ public final class FlowHouse {
                     }
                     break;
                 case CHOICE:
-                    markDeep(a, at, cuts, depth + 1);
-                    markDeep(b, at, cuts, depth + 1);
-                    markDeep(nodes.get(node, C), at, cuts, depth + 1);
+                    markCuts(a, at, cuts, depth + 1);
+                    markCuts(b, at, cuts, depth + 1);
+                    markCuts(nodes.get(node, C), at, cuts, depth + 1);
                     break;
                 case PLACES:
-                    markDeep((a >> at & 1) != 0 ? b : NONE, at, cuts, depth + 1);
+                    markCuts((a >> at & 1) != 0 ? b : NONE, at, cuts, depth + 1);
                     break;
                 case NOT:
                 case ROW:
@@ -1082,7 +1039,7 @@ public final class FlowHouse {
                 case ALL:
                 case SOME:
                     for (int i = a, n = 0; i != NONE && n < TEXT_ROOM; i = nodes.get(i, NEXT), n++) {
-                        markDeep(i, at, cuts, depth + 1);
+                        markCuts(i, at, cuts, depth + 1);
                     }
                     break;
                 default:
@@ -1108,12 +1065,11 @@ public final class FlowHouse {
 
     /** Finds the rules of a policy. It splits the rows bit by bit, only where the policy asks for the bit. */
     private static final class Compiler {
-        /** The columns of what was found. */
-        private static final int MASK = 0, VALUE = 1, SIZE = 2, ACTIONS = 3;
         private static final int CARD_ROOM = 2048;
 
         private final Tree tree;
-        private final Rows found = new Rows(ACTIONS + WIDEST, MOST_RULES);
+        /** Rules, with the columns of those of a policy. */
+        private final Rows found = new Rows(Policy.COLUMNS, MOST_RULES);
         private final int[] cuts = new int[FIELDS];
         /** Sets of cards, one behind the other. */
         private final int[] cards = new int[CARD_ROOM];
@@ -1133,12 +1089,12 @@ public final class FlowHouse {
             for (int s = 0; s < MOST_SWITCHES; s++) {
                 int twin = tree.twinOf(s, first);
                 if (twin != NONE) {
-                    policy.copyRules(twin, s);
+                    policy.shareRules(twin, s);
                     continue;
                 }
                 at = s;
                 Arrays.fill(cuts, 0);
-                tree.markCuts(top, s, cuts);
+                tree.markCuts(top, s, cuts, 0);
                 found.cutTo(0);
                 if (!explore(0, 0, 0)) {
                     return false;
@@ -1204,7 +1160,7 @@ public final class FlowHouse {
                 return false;
             }
             for (int i = start; i < middle; i++) {
-                for (int column = 0; column < ACTIONS + WIDEST; column++) {
+                for (int column = 0; column < Policy.COLUMNS; column++) {
                     if (found.get(i, column) != found.get(i + length, column)) {
                         return false;
                     }
@@ -1215,9 +1171,9 @@ public final class FlowHouse {
 
         private void markRules(int start, int middle, int mark) {
             for (int i = start; i < found.size(); i++) {
-                found.set(i, MASK, found.get(i, MASK) | mark);
+                found.set(i, Policy.MASK, found.get(i, Policy.MASK) | mark);
                 if (i >= middle) {
-                    found.set(i, VALUE, found.get(i, VALUE) | mark);
+                    found.set(i, Policy.VALUE, found.get(i, Policy.VALUE) | mark);
                 }
             }
         }
@@ -1230,13 +1186,13 @@ public final class FlowHouse {
                 if (Policy.fieldOf(cards[i], PORT) != NONE && size < WIDEST) {
                     rule = rule == NONE ? found.add(0, 0, 0, 0) : rule;
                     int j = size++;
-                    for (; j > 0 && found.get(rule, ACTIONS + j - 1) > cards[i]; j--) {
-                        found.set(rule, ACTIONS + j, found.get(rule, ACTIONS + j - 1));
+                    for (; j > 0 && found.get(rule, Policy.ACTIONS + j - 1) > cards[i]; j--) {
+                        found.set(rule, Policy.ACTIONS + j, found.get(rule, Policy.ACTIONS + j - 1));
                     }
-                    found.set(rule, ACTIONS + j, cards[i]);
+                    found.set(rule, Policy.ACTIONS + j, cards[i]);
                 }
             }
-            found.set(rule, SIZE, size);
+            found.set(rule, Policy.SIZE, size);
         }
 
         /** Runs a node on the set of cards from start to end; its cards go from top on. Returns their end. */
@@ -1287,7 +1243,7 @@ public final class FlowHouse {
             int test = tree.nodes.get(node, Tree.A);
             int others = top;
             for (int i = start; i < end; i++) {
-                int told = tree.judge(test, cardAt(i), known, row);
+                int told = tree.judge(test, cardAt(i), known, row, 0);
                 if (told == Tree.OPEN) {
                     isStuck = true;
                     return top;
@@ -1298,7 +1254,7 @@ public final class FlowHouse {
             }
             int all = others;
             for (int i = start; i < end; i++) {
-                if (tree.judge(test, cardAt(i), known, row) == Tree.NO) {
+                if (tree.judge(test, cardAt(i), known, row, 0) == Tree.NO) {
                     all = put(cardAt(i), others, all);
                 }
             }
@@ -1322,8 +1278,8 @@ public final class FlowHouse {
         }
 
         private int put(int card, int top, int last) {
-            for (int i = top; i < last; i++) {
-                if (cardAt(i) == card) {
+            for (int i = top; i < last && i < cards.length; i++) {
+                if (i >= 0 && cards[i] == card) {
                     return last;
                 }
             }
@@ -1350,8 +1306,6 @@ public final class FlowHouse {
             0x6f72L, 0x616e64L, 0x6e6f74L, 0x616e79L, 0x696eL, 0x66726f6dL, 0x746fL, 0x6b696e64L, 0x6d61726bL};
         private static final int POLICY = 0, SLICE = 1, DROP = 2, PASS = 3, OUT = 4, IF = 5, ELSE = 6, AT = 7;
         private static final int OR = 8, AND = 9, NOT = 10, ANY = 11, IN = 12, FROM = 13, TO = 14, KIND = 15, MARK = 16;
-        /** The signs of one byte; their tokens are their places here, from OPEN on. */
-        private static final String SIGNS = "{}();,|=";
         private static final int OPEN = 20, CLOSE = 21, LEFT = 22, RIGHT = 23, SEMICOLON = 24, COMMA = 25, BAR = 26;
         private static final int EQUALS = 27, BECOMES = 28, UP_TO = 29;
         /** STRANGE is a word that is too long for a NAME, BAD what is no token; behind an error all is FAILED. */
@@ -1482,7 +1436,7 @@ public final class FlowHouse {
             inSlice = false;
             int first = tree.nodes.size();
             int root = policy(1);
-            if (token == CLOSE && tree.widthOf(root) > WIDEST) {
+            if (token == CLOSE && tree.widthOf(root, 0) > WIDEST) {
                 fail(7);
             } else if (token == CLOSE && !compiler.compile(root, first, store.roomFor(slot))) {
                 fail(8);
@@ -1734,41 +1688,37 @@ public final class FlowHouse {
         }
 
         private void advance() {
+            for (; position < length && position < bytes.length; position++) {
+                if (bytes[position] != ' ' && bytes[position] != 10) {
+                    break;
+                }
+            }
+            place = position;
             if (token == FAILED) {
                 return;
             }
-            while (position < length && (byteAt(position) == 32 || byteAt(position) == 10)) {
-                position++;
-            }
-            place = position;
-            int one = byteAt(position);
-            if (position >= length) {
+            if (position >= length || position >= bytes.length) {
                 token = END;
-            } else if (isLetter(one)) {
+                return;
+            }
+            int one = bytes[position];
+            if (one >= 'a' && one <= 'z') {
                 readWord();
-            } else if (isDigit(one)) {
+            } else if (one >= '0' && one <= '9') {
                 readNumber();
             } else {
                 readSign(one);
             }
         }
 
-        private int byteAt(int i) {
-            return i >= 0 && i < length && i < bytes.length ? bytes[i] & 255 : 0;
-        }
-
-        private static boolean isLetter(int one) {
-            return one >= 'a' && one <= 'z';
-        }
-
-        private static boolean isDigit(int one) {
-            return one >= '0' && one <= '9';
-        }
-
         private void readWord() {
             name = 0;
-            for (; position < length && isLetter(byteAt(position)); position++) {
-                name = name << 8 | byteAt(position);
+            for (; position < length && position < bytes.length; position++) {
+                int one = bytes[position];
+                if (one < 'a' || one > 'z') {
+                    break;
+                }
+                name = name << 8 | one;
             }
             token = position - place > LONGEST_NAME ? STRANGE : NAME;
             for (int i = 0; i < WORDS.length && token == NAME; i++) {
@@ -1780,21 +1730,48 @@ public final class FlowHouse {
 
         private void readNumber() {
             number = 0;
-            for (; position < length && isDigit(byteAt(position)); position++) {
-                number = Math.min(LARGEST + 1, number * 10 + byteAt(position) - '0');
+            for (; position < length && position < bytes.length; position++) {
+                int one = bytes[position];
+                if (one < '0' || one > '9') {
+                    break;
+                }
+                number = number > LARGEST ? number : number * 10 + one - '0';
             }
             token = number > LARGEST ? BAD : NUMBER;
         }
 
         private void readSign(int one) {
-            int next = byteAt(position + 1);
-            int sign = SIGNS.indexOf((char) one);
-            if (one == ':' && next == '=' || one == '.' && next == '.') {
-                token = one == ':' ? BECOMES : UP_TO;
-                position += 2;
-            } else {
-                token = sign >= 0 ? OPEN + sign : BAD;
-                position++;
+            position++;
+            int next = position < length && position < bytes.length ? bytes[position] : 0;
+            switch (one) {
+                case '{':
+                    token = OPEN;
+                    break;
+                case '}':
+                    token = CLOSE;
+                    break;
+                case '(':
+                    token = LEFT;
+                    break;
+                case ')':
+                    token = RIGHT;
+                    break;
+                case ';':
+                    token = SEMICOLON;
+                    break;
+                case ',':
+                    token = COMMA;
+                    break;
+                case '|':
+                    token = BAR;
+                    break;
+                case '=':
+                    token = EQUALS;
+                    break;
+                default:
+                    token = one == ':' && next == '=' ? BECOMES : one == '.' && next == '.' ? UP_TO : BAD;
+                    position += token == BAD ? 0 : 1;
+                    break;
             }
         }
     }
@@ -1880,8 +1857,8 @@ public final class FlowHouse {
         }
 
         void postRule(int kind, int tag, int policy, int rule) {
-            Policy its = store.policy(policy);
-            int message = inbox.add(kind, tag, its.maskOf(at, rule), its.valueOf(at, rule));
+            Rows its = store.policy(policy).rulesFor(at);
+            int message = inbox.add(kind, tag, its.get(rule, Policy.MASK), its.get(rule, Policy.VALUE));
             inbox.set(message, ITS_POLICY, policy);
             inbox.set(message, ITS_RULE, rule);
         }
@@ -2128,8 +2105,8 @@ public final class FlowHouse {
             int following = next;
             phase = ASKING;
             sendRound();
-            if (isRoundOver()) {
-                endAsking();
+            if (isRoundOver() && endAsking()) {
+                sendRound();
             }
             return following;
         }
@@ -2182,8 +2159,8 @@ public final class FlowHouse {
                 if (itsRefused > 0 && (phase == ADDING || phase == CHANGING)) {
                     isRefused = true;
                 }
-                if (isRoundOver()) {
-                    endRound();
+                if (isRoundOver() && (phase == ASKING ? endAsking() : endRound())) {
+                    sendRound();
                 }
             }
             return kind;
@@ -2207,7 +2184,8 @@ public final class FlowHouse {
             return (answered & all) == all;
         }
 
-        private void endRound() {
+        /** Ends the round of a phase; tells whether a phase begins that has a round. */
+        private boolean endRound() {
             switch (phase) {
                 case ADDING:
                     if (isRefused || isCancelled) {
@@ -2215,20 +2193,13 @@ public final class FlowHouse {
                     } else {
                         beginStamping();
                     }
-                    sendRound();
-                    break;
+                    return true;
                 case STAMPING:
                     endStamping();
-                    break;
-                case CLEARING:
-                case CHANGING:
-                    endUpdate(isRefused ? WAS_REFUSED : isCancelled ? WAS_CANCELLED : ENDED);
-                    break;
-                case ASKING:
-                    endAsking();
-                    break;
+                    return false;
                 default:
-                    break;
+                    endUpdate(isRefused ? WAS_REFUSED : isCancelled ? WAS_CANCELLED : ENDED);
+                    return false;
             }
         }
 
@@ -2271,17 +2242,14 @@ public final class FlowHouse {
             phase = IDLE;
         }
 
-        private void endAsking() {
+        private boolean endAsking() {
             // the round of ASKING is over and the next one has not begun: there is none
             for (int s = 0; s < stationCount(); s++) {
                 bringUp(stations[s], 0);
             }
             phase = next;
-            if (phase == WAITING) {
-                since = network.time;
-            } else if (phase != IDLE) {
-                sendRound();
-            }
+            since = network.time;
+            return phase != IDLE && phase != WAITING;
         }
 
         // ---- what it sends
@@ -2289,40 +2257,30 @@ public final class FlowHouse {
         private void sendRound() {
             round++;
             answered = 0;
+            int tag = updates.get(current, TAG);
             for (int s = 0; s < stationCount(); s++) {
-                sendPhase(stations[s]);
-                stations[s].post(BARRIER, round);
-            }
-        }
-
-        private void sendPhase(Station station) {
-            switch (phase) {
-                case ADDING:
-                    sendRules(station, updates.get(current, TAG));
-                    break;
-                case STAMPING:
-                    station.postList(list);
-                    break;
-                case CLEARING:
-                    for (int tag = 0; tag < TAGS; tag++) {
-                        if ((toClear >> tag & 1) != 0) {
-                            station.post(CLEAR, tag);
-                        }
-                    }
-                    break;
-                case CHANGING:
+                Station station = stations[s];
+                if (phase == CHANGING) {
                     sendRemovals(station);
-                    sendRules(station, updates.get(current, TAG));
+                }
+                if (phase == ADDING || phase == CHANGING) {
+                    sendRules(station, tag);
+                }
+                if (phase == STAMPING || phase == CHANGING) {
                     station.postList(list);
-                    break;
-                default:
-                    break;
+                }
+                for (int i = 0; i < TAGS && phase == CLEARING; i++) {
+                    if ((toClear >> i & 1) != 0) {
+                        station.post(CLEAR, i);
+                    }
+                }
+                station.post(BARRIER, round);
             }
         }
 
         private void sendRules(Station station, int tag) {
             int policy = policyOf(tag);
-            int size = store.policy(policy).rulesAt(station.at);
+            int size = store.policy(policy).rulesFor(station.at).size();
             for (int rule = 0; rule < size; rule++) {
                 station.postRule(ADD, tag, policy, rule);
             }
@@ -2331,11 +2289,11 @@ public final class FlowHouse {
         private void sendRemovals(Station station) {
             int tag = updates.get(current, TAG);
             int before = updates.get(current, BEFORE);
-            Policy old = store.policy(before);
+            Rows old = store.policy(before).rulesFor(station.at);
             Policy wanted = store.policy(updates.get(current, POLICY));
-            for (int rule = 0; rule < old.rulesAt(station.at); rule++) {
-                int mask = old.maskOf(station.at, rule);
-                if (wanted.withPattern(station.at, mask, old.valueOf(station.at, rule)) == NONE) {
+            for (int rule = 0; rule < old.size(); rule++) {
+                int mask = old.get(rule, Policy.MASK);
+                if (wanted.withPattern(station.at, mask, old.get(rule, Policy.VALUE)) == NONE) {
                     station.postRule(REMOVE, tag, before, rule);
                 }
             }

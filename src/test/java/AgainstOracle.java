@@ -299,12 +299,20 @@ public final class AgainstOracle {
     // ---- runs
 
     void network() {
+        for (int i = pick(8); i > 6; i--) {
+            stop();
+            start();
+        }
         if (pick(3) > 0) {
             build(pick(3));
         } else {
             int n = 1 + pick(8);
             for (int i = 0; i < n; i++) {
                 addSwitch();
+                if (pick(20) == 0) {
+                    stop();
+                    start();
+                }
             }
             for (int i = pick(16); i > 0; i--) {
                 addLink(some(n - 1), some(5), some(n - 1), some(5), 1 + some(8));
@@ -372,7 +380,8 @@ public final class AgainstOracle {
             case 8:
             case 9:
             case 10:
-                update(some(plans), pick(3) > 0 ? FlowHouse.NONE : some(oracle.slices.size() - 1), pick(4) == 0 ? some(1) : 0);
+                update(some(plans), pick(3) > 0 ? FlowHouse.NONE : some(oracle.slices.size() - 1),
+                        pick(oracle.used().size() == 1 ? 2 : 9) == 0 ? some(1) : 0);
                 break;
             case 11:
                 cancel();
@@ -406,7 +415,9 @@ public final class AgainstOracle {
             case 24:
             case 25:
             case 26:
-                send(some(hosts), header());
+                for (int i = pick(12) == 0 ? pick(30) : 1; i > 0 && !failed; i--) {
+                    send(some(hosts), header());
+                }
                 break;
             case 27:
             case 28:
@@ -472,7 +483,11 @@ public final class AgainstOracle {
     void runOfPolicies() {
         network();
         for (int i = 0; i < 6 && !failed; i++) {
-            type("policy " + (char) ('r' + i) + " { " + RandomText.policy(random, 1 + pick(3)) + " }");
+            if (i > 2 && pick(3) == 0) {
+                piece(pick(6));
+            } else {
+                type("policy " + (char) ('r' + i) + " { " + RandomText.policy(random, 1 + pick(3)) + " }");
+            }
             errors();
             if (oracle.errorKind() != 0) {
                 clearText();
@@ -491,9 +506,9 @@ public final class AgainstOracle {
                 }
             }
         }
-        for (int i = 0; i < 4 && !failed && !oracle.hosts.isEmpty(); i++) {
-            walks(i, some(oracle.plans.size() - 1), some(oracle.hosts.size() - 1), some(oracle.hosts.size() - 1),
-                    i == 3 ? some(oracle.plans.size() - 1) : some(oracle.switches.size() - 1));
+        for (int i = 0; i < 16 && !failed && !oracle.hosts.isEmpty(); i++) {
+            walks(i % 4, some(oracle.plans.size() - 1), some(oracle.hosts.size() - 1), some(oracle.hosts.size() - 1),
+                    i % 4 == 3 ? some(oracle.plans.size() - 1) : some(oracle.switches.size() - 1));
         }
     }
 
@@ -504,9 +519,9 @@ public final class AgainstOracle {
         for (long seed = first; seed < first + runs; seed++) {
             AgainstOracle one = new AgainstOracle(seed);
             try {
-                if (seed % 20 == 0) {
+                if (seed % 10 == 0) {
                     one.runOfTexts();
-                } else if (seed % 20 == 10) {
+                } else if (seed % 10 == 5) {
                     one.runOfPolicies();
                 } else {
                     one.run();

@@ -16,9 +16,16 @@ final class RandomText {
 
     static {
         Random random = new Random(7);
-        for (int i = 0; i < 30; i++) {
-            POOL.add("policy q" + (char) ('a' + i % 26) + (char) ('a' + i / 26) + " { " + policy(random, 1 + i % 3) + " }");
+        for (int i = 0; i < 24; i++) {
+            POOL.add("policy q" + (char) ('a' + i) + " { " + policy(random, 1 + i % 3) + " }");
         }
+        // many rules, so that tables become full
+        POOL.add("policy big { if mark = 1 .. 6 and from = 3 .. 12 { out 1 } else { out 2 } }");
+        POOL.add("policy wide { if to = 0 .. 6 and kind = 1 .. 6 and not mark = 3 { out 1; mark := 1 } else { kind := 1; out 2 | out 3 } }");
+        POOL.add("policy part { if to = 1 .. 14 and from = 1 .. 14 { out 1 } else { at 0, 2 { out 2 } } }");
+        // many copies, and actions that make the same ones
+        POOL.add("policy flood { out 0 | out 1 | out 2 | mark := 1; out 1 | kind := 2; (out 1 | out 2) }");
+        POOL.add("policy round { out 1 | mark := 2; out 1 | if kind = 1 { out 2 } else { out 0 } }");
     }
 
     /** One of a few policies, so that the oracle need not tabulate each text anew. */
@@ -88,6 +95,10 @@ final class RandomText {
             case 9:
                 return "at " + number(random, 7) + "," + number(random, 3) + " { " + policy(random, depth - 1) + " }";
             default:
+                if (random.nextBoolean()) {
+                    int port = random.nextInt(4);
+                    return "( out " + port + " | " + FIELDS[f] + " := " + number(random, MOST[f]) + "; out " + port + " )";
+                }
                 return "( " + policy(random, depth - 1) + " )";
         }
     }
@@ -120,8 +131,11 @@ final class RandomText {
                 text.append("slice ").append(name(random)).append("{").append(test(random, 4, random.nextInt(9) == 0)).append("}");
                 break;
             case 3:
-                for (int i = random.nextInt(9); i > 0; i--) {
-                    text.append("policy ").append(name(random)).append("{out 1}\nslice ").append(name(random)).append("{any}");
+                for (int i = 0; i < 7 && random.nextInt(20) > 0; i++) {
+                    text.append("policy ").append((char) ('a' + i)).append("{out 1}\n");
+                }
+                for (int i = 0; i < 7 && random.nextInt(20) > 0; i++) {
+                    text.append("slice ").append((char) ('a' + i)).append("{any}");
                 }
                 break;
             default:
