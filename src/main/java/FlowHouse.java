@@ -476,7 +476,7 @@ public final class FlowHouse {
     }
 
     public boolean isConsistent() {
-        return controller.hasChanged() || traffic.followsTheorem() && controller.tablesFollowTheorem();
+        return controller.hasChanged() || (traffic.followsTheorem() && controller.tablesFollowTheorem());
     }
 
     public int errors() {
@@ -566,7 +566,9 @@ public final class FlowHouse {
             }
             int row = size++;
             int from = (gone + row) * columns;
-            Arrays.fill(cells, from, from + columns, 0);
+            for (int i = from; i < from + columns && i < cells.length; i++) {
+                cells[i] = 0;
+            }
             set(row, 0, a);
             set(row, 1, b);
             set(row, 2, c);
@@ -719,7 +721,7 @@ public final class FlowHouse {
             if (field < 0 || field >= FIELDS) {
                 return NONE;
             }
-            return (card >> CARD_SHIFT[field] & CARD_MOST[field]) - 1;
+            return ((card >> CARD_SHIFT[field]) & CARD_MOST[field]) - 1;
         }
 
         static int withField(int card, int field, int value) {
@@ -727,7 +729,15 @@ public final class FlowHouse {
                 return card;
             }
             int shift = CARD_SHIFT[field];
-            return card & ~(CARD_MOST[field] << shift) | value + 1 << shift;
+            return (card & ~(CARD_MOST[field] << shift)) | ((value + 1) << shift);
+        }
+
+        /** A field of a row. */
+        static int fieldIn(int row, int field) {
+            if (field < 0 || field >= FIELDS) {
+                return 0;
+            }
+            return (row >> ROW_SHIFT[field]) & ROW_MOST[field];
         }
 
         /** The bits of a header that an action writes. */
@@ -746,14 +756,14 @@ public final class FlowHouse {
             for (int f = PORT + 1; f < FIELDS; f++) {
                 int value = fieldOf(card, f);
                 if (value != NONE) {
-                    result = result & ~(ROW_MOST[f] << ROW_SHIFT[f]) | value << ROW_SHIFT[f];
+                    result = (result & ~(ROW_MOST[f] << ROW_SHIFT[f])) | (value << ROW_SHIFT[f]);
                 }
             }
             return result;
         }
 
         static int highest(int bits) {
-            for (int bit = 1 << ROW_BITS - 1; bit > 0; bit >>= 1) {
+            for (int bit = ROWS / 2; bit > 0; bit >>= 1) {
                 if ((bits & bit) != 0) {
                     return bit;
                 }
@@ -938,8 +948,8 @@ public final class FlowHouse {
                         return NO;
                     }
                     int written = a == PORT ? NONE : Policy.fieldOf(card, a);
-                    int low = written != NONE ? written : row >> ROW_SHIFT[a] & ROW_MOST[a];
-                    int high = written != NONE ? written : low | ~known >> ROW_SHIFT[a] & ROW_MOST[a];
+                    int low = written != NONE ? written : Policy.fieldIn(row, a);
+                    int high = written != NONE ? written : low | Policy.fieldIn(~known, a);
                     int least = nodes.get(node, B);
                     int most = nodes.get(node, C);
                     if (high < least || low > most) {
@@ -1003,7 +1013,7 @@ public final class FlowHouse {
                 boolean areSame = true;
                 for (int i = first; i < nodes.size() && areSame; i++) {
                     int places = nodes.get(i, A);
-                    areSame = nodes.get(i, KIND) != PLACES || (places >> at & 1) == (places >> twin & 1);
+                    areSame = nodes.get(i, KIND) != PLACES || ((places >> at) & 1) == ((places >> twin) & 1);
                 }
                 if (areSame) {
                     return twin;
@@ -1022,7 +1032,7 @@ public final class FlowHouse {
             switch (nodes.get(node, KIND)) {
                 case FACT:
                     if (a >= 0 && a < cuts.length) {
-                        cuts[a] |= 1 << b | 2 << nodes.get(node, C);
+                        cuts[a] |= (1 << b) | (2 << nodes.get(node, C));
                     }
                     break;
                 case CHOICE:
@@ -1031,7 +1041,7 @@ public final class FlowHouse {
                     markCuts(nodes.get(node, C), at, cuts, depth + 1);
                     break;
                 case PLACES:
-                    markCuts((a >> at & 1) != 0 ? b : NONE, at, cuts, depth + 1);
+                    markCuts(((a >> at) & 1) != 0 ? b : NONE, at, cuts, depth + 1);
                     break;
                 case NOT:
                 case ROW:
@@ -1109,9 +1119,7 @@ public final class FlowHouse {
             known = knownBits;
             row = value;
             isStuck = false;
-            if (cards.length > 0) {
-                cards[0] = 0;
-            }
+            // card 0, which nothing changes, is the one to begin with: nothing written, no port
             int end = run(root, 0, 1, 1, 0);
             if (!isStuck) {
                 addRule(1, end);
@@ -1121,7 +1129,7 @@ public final class FlowHouse {
             if (split >= ROW_BITS) {
                 return false;
             }
-            int mark = 1 << ROW_BITS - 1 - split;
+            int mark = 1 << (ROW_BITS - 1 - split);
             int start = found.size();
             if (!explore(split + 1, knownBits | mark, value)) {
                 return false;
@@ -1143,8 +1151,8 @@ public final class FlowHouse {
             for (int f = 0; f < FIELDS; f++) {
                 int end = f + 1 < FIELDS ? FIRST_BIT[f + 1] : ROW_BITS;
                 if (bit < end) {
-                    int low = value >> ROW_SHIFT[f] & ROW_MOST[f];
-                    int high = low | ~knownBits >> ROW_SHIFT[f] & ROW_MOST[f];
+                    int low = Policy.fieldIn(value, f);
+                    int high = low | Policy.fieldIn(~knownBits, f);
                     int between = (2 << high) - (2 << low);
                     if ((cuts[f] & between) != 0) {
                         return Math.max(bit, FIRST_BIT[f]);
@@ -1214,7 +1222,7 @@ public final class FlowHouse {
                 case Tree.CHOICE:
                     return runChoice(node, start, end, top, depth);
                 case Tree.PLACES:
-                    return (a >> at & 1) != 0 ? run(b, start, end, top, depth + 1) : top;
+                    return ((a >> at) & 1) != 0 ? run(b, start, end, top, depth + 1) : top;
                 case Tree.ROW:
                     return runRow(a, start, end, top, depth);
                 case Tree.SUM:
@@ -1354,14 +1362,14 @@ public final class FlowHouse {
         static int bytesIn(long packed) {
             int sum = 0;
             for (int shift = 56; shift >= 0; shift -= 8) {
-                sum += (packed >> shift & 255) != 0 ? 1 : 0;
+                sum += ((packed >> shift) & 255) != 0 ? 1 : 0;
             }
             return sum;
         }
 
         void putBytes(long packed) {
             for (int shift = 56; shift >= 0; shift -= 8) {
-                int one = (int) (packed >> shift & 255);
+                int one = (int) ((packed >> shift) & 255);
                 if (one != 0) {
                     putByte(one);
                 }
@@ -1718,7 +1726,7 @@ public final class FlowHouse {
                 if (one < 'a' || one > 'z') {
                     break;
                 }
-                name = name << 8 | one;
+                name = (name << 8) | one;
             }
             token = position - place > LONGEST_NAME ? STRANGE : NAME;
             for (int i = 0; i < WORDS.length && token == NAME; i++) {
@@ -1800,11 +1808,11 @@ public final class FlowHouse {
         // the first one lowest, that holds the slice plus 1, the tag, and the policy plus 1.
 
         static int newEntry(int slice, int tag, int policy) {
-            return slice + 1 << 5 | tag << 3 | policy + 1;
+            return ((slice + 1) << 5) | (tag << 3) | (policy + 1);
         }
 
         static int entryOf(int list, int index) {
-            return index >= 0 && index < TAGS ? list >>> 8 * index & 255 : 0;
+            return index >= 0 && index < TAGS ? (list >>> (8 * index)) & 255 : 0;
         }
 
         static int listed(int list) {
@@ -1820,7 +1828,7 @@ public final class FlowHouse {
         }
 
         static int tagIn(int entry) {
-            return entry >> 3 & 3;
+            return (entry >> 3) & 3;
         }
 
         static int policyIn(int entry) {
@@ -2077,7 +2085,7 @@ public final class FlowHouse {
             for (int i = TAGS - 1; i >= 0; i--) {
                 int entry = Station.entryOf(list, i);
                 boolean isIts = entry != 0 && Station.tagIn(entry) == tag;
-                newList = newList << 8 | (isIts ? Station.newEntry(Station.sliceIn(entry), tag, policy) : entry);
+                newList = (newList << 8) | (isIts ? Station.newEntry(Station.sliceIn(entry), tag, policy) : entry);
             }
             list = newList;
         }
@@ -2105,8 +2113,9 @@ public final class FlowHouse {
             int following = next;
             phase = ASKING;
             sendRound();
-            if (isRoundOver() && endAsking()) {
-                sendRound();
+            if (isRoundOver()) {
+                // without switches there is no update, so IDLE follows, which has no round
+                endAsking();
             }
             return following;
         }
@@ -2206,7 +2215,7 @@ public final class FlowHouse {
         private void beginStamping() {
             int slice = updates.get(current, 1);
             int entry = Station.newEntry(slice, updates.get(current, TAG), updates.get(current, POLICY));
-            list = slice == NONE ? entry : list << 8 | entry;
+            list = slice == NONE ? entry : (list << 8) | entry;
             phase = STAMPING;
         }
 
@@ -2227,7 +2236,7 @@ public final class FlowHouse {
         private void beginClearing(int set) {
             toClear = set;
             for (int tag = 0; tag < TAGS; tag++) {
-                if ((set >> tag & 1) != 0) {
+                if (((set >> tag) & 1) != 0) {
                     give(tag, NONE);
                 }
             }
@@ -2270,7 +2279,7 @@ public final class FlowHouse {
                     station.postList(list);
                 }
                 for (int i = 0; i < TAGS && phase == CLEARING; i++) {
-                    if ((toClear >> i & 1) != 0) {
+                    if (((toClear >> i) & 1) != 0) {
                         station.post(CLEAR, i);
                     }
                 }
@@ -2333,7 +2342,7 @@ public final class FlowHouse {
             int policy = policyOf(tag);
             if (policy == NONE) {
                 int kept = phase == ASKING ? next : phase;
-                return kept == CLEARING && (toClear >> tag & 1) != 0;
+                return kept == CLEARING && ((toClear >> tag) & 1) != 0;
             }
             Policy its = store.policy(table.get(row, Station.POLICY));
             return store.policy(policy).hasRuleOf(at, its, table.get(row, Station.RULE));
@@ -2343,9 +2352,11 @@ public final class FlowHouse {
     /** The packets and their copies. */
     private static final class Traffic {
         /** The columns of a packet. */
-        private static final int HOST = 0, HEADER = 1, TAG = 2, POLICY = 3, COPIES = 4, MOVING = 5, ARRIVED = 6, SHORT = 7, SENT = 8;
+        private static final int HOST = 0, HEADER = 1, TAG = 2, POLICY = 3, COPIES = 4;
+        private static final int MOVING = 5, ARRIVED = 6, SHORT = 7, SENT = 8;
         /** The columns of a copy; those that can be asked for first. */
-        private static final int STATE = 0, ITS_HEADER = 1, PARENT = 2, OUT = 3, AT = 4, IN = 5, ITS_HOST = 6, LINKS = 7, WHEN = 8, LINK = 9;
+        private static final int STATE = 0, ITS_HEADER = 1, PARENT = 2, OUT = 3, AT = 4, IN = 5, ITS_HOST = 6;
+        private static final int LINKS = 7, WHEN = 8, LINK = 9;
 
         private final Network network;
         private final Store store;
@@ -2422,7 +2433,7 @@ public final class FlowHouse {
         }
 
         private static int rowOf(Rows rows, int copy) {
-            return rows.get(copy, IN) << HEADER_BITS | rows.get(copy, ITS_HEADER);
+            return (rows.get(copy, IN) << HEADER_BITS) | rows.get(copy, ITS_HEADER);
         }
 
         private void handle(int packet, int copy) {
@@ -2766,7 +2777,8 @@ public final class FlowHouse {
             int at = place / PORTS;
             int known = queue.get(copy, KNOWN);
             int value = queue.get(copy, VALUE);
-            int rule = policy.fit(at, known | ROW_MOST[PORT] << HEADER_BITS, value | place % PORTS << HEADER_BITS);
+            int portBits = ROW_MOST[PORT] << HEADER_BITS;
+            int rule = policy.fit(at, known | portBits, value | ((place % PORTS) << HEADER_BITS));
             if (rule < NONE) {
                 need = NONE - rule;
             }
@@ -2812,12 +2824,12 @@ public final class FlowHouse {
             made++;
             int use = network.useOf(place);
             int at = place / PORTS;
-            int seen = queue.get(parent, SEEN) | 1 << at;
+            int seen = queue.get(parent, SEEN) | (1 << at);
             int links = queue.get(parent, LINKS);
             if (use >= 0) {
                 ends.add(use, known, value, 0);
-                boolean isThere = use == goalHost;
-                isFound = goal == TO_REACH && isThere || goal == TO_AVOID && isThere && (seen >> goalSwitch & 1) == 0;
+                boolean wasPast = goal == TO_AVOID && ((seen >> goalSwitch) & 1) != 0;
+                isFound = (goal == TO_REACH || goal == TO_AVOID) && use == goalHost && !wasPast;
             } else if (use == NONE || links >= LONGEST_WAY) {
                 isFound = goal == TO_STRAY;
             } else {

@@ -40,7 +40,8 @@ public final class MessagePromises {
         // nothing goes past a BARRIER
         x.restart(1);
         x.answer(1);
-        DUE.is(29, "BARRIER 0 is first", x.deliver(1, 5), FlowHouse.BARRIER);
+        DUE.is(34, "a BARRIER alone", x.switchAt(1, 3), 1);
+        DUE.is(29, "BARRIER 0 is first", x.deliver(1, 2), FlowHouse.BARRIER);
         DUE.is(34, "that can be carried out", x.switchAt(1, 3), 4);
         DUE.is(29, "STAMP is fourth", x.deliver(1, 3), FlowHouse.STAMP);
         DUE.is(29, "three are left", x.deliver(1, 3), FlowHouse.ADD);

@@ -227,6 +227,10 @@ public final class PacketPromises {
         y.pass(1);
         DUE.are(39, "just 64", i -> y.packetAt(0, i), 0, 0, 0, 0, 64, 0, 56, 0, 0);
         DUE.is(42, "all is there", y.isWhole(0), true);
+        FlowHouse w = running(1, FLOOD.replace("LAST", "if in 2 { mark := 7 }"));
+        w.send(0, 0);
+        w.pass(1);
+        DUE.are(39, "65 would be made", i -> w.packetAt(0, i), 0, 0, 0, 0, 64, 0, 55, 1, 0);
         // beyond 64, what would be the same as a copy ahead is none that is not made
         FlowHouse z = running(1, "policy a { (mark := 0 | mark := 1 | mark := 2 | mark := 3 | mark := 4 | mark := 5 | mark := 6 | if in 0 { mark := 7 });"
                 + "if in 0 { out 2 } else { out 1 } }");

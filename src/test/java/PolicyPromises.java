@@ -136,7 +136,7 @@ public final class PolicyPromises {
     }
 
     private static void has() {
-        FlowHouse x = store("slice a { from = 0 .. 3 and not to = 2 or mark = 7 } slice b { not any } slice c { kind = 2 .. 5 }");
+        FlowHouse x = store("slice a { from = 0 .. 3 and not to = 2 or mark = 7 } slice b { not any } slice c { (not kind = 0 .. 1 and kind = 0 .. 5) and (mark = 1 or mark = 3 or not any) }");
         DUE.is(18, "from 3", x.has(0, Due.header(3, 1, 0, 0)), true);
         DUE.is(18, "from 4", x.has(0, Due.header(4, 1, 0, 0)), false);
         DUE.is(18, "to 2", x.has(0, Due.header(3, 2, 0, 0)), false);
@@ -146,7 +146,10 @@ public final class PolicyPromises {
         for (int header = 0; header < 16384; header++) {
             sum += x.has(2, header) ? 1 : 0;
         }
-        DUE.is(18, "headers of slice c", sum, 8192);
+        DUE.is(18, "headers of slice c", sum, 2048);
+        DUE.is(18, "mark 3", x.has(2, Due.header(0, 0, 5, 3)), true);
+        DUE.is(18, "mark 2", x.has(2, Due.header(0, 0, 5, 2)), false);
+        DUE.is(18, "kind 6", x.has(2, Due.header(0, 0, 6, 3)), false);
         DUE.noIndex(18, "slice 3", () -> x.has(3, 0));
         DUE.noIndex(18, "slice -1", () -> x.has(-1, 16384));
         DUE.noArgument(18, "header 16384", () -> x.has(0, 16384));
@@ -215,7 +218,7 @@ public final class PolicyPromises {
     }
 
     private static void astray() {
-        FlowHouse x = Due.house(2, "policy a { out 1 } policy b { if kind = 3 { out 5 } else { out 0 } } policy c { drop }"
+        FlowHouse x = Due.house(2, "policy a { out 1 } policy b { if in 0 { if kind = 3 { out 5 } else { out 0 } } } policy c { drop }"
                 + "policy d { out 0 | out 1 | mark := 1; (out 0 | out 1) | mark := 2; (out 0 | out 1) | mark := 3; (out 0 | out 1) }");
         DUE.is(21, "delivered", x.astray(0, 0), 0);
         DUE.is(21, "lost", x.astray(1, 0), 2048);
@@ -233,6 +236,7 @@ public final class PolicyPromises {
         String text = "policy a { (mark := 0 | mark := 1 | mark := 2 | mark := 3 | mark := 4 | mark := 5 | mark := 6 | LAST);"
                 + "if in 0 { out 2 } else { out 1 } }";
         DUE.is(21, "64 copies", Due.house(1, text.replace("LAST", "if in 0 { mark := 7 }")).astray(0, 0), 0);
+        DUE.is(21, "65 copies", Due.house(1, text.replace("LAST", "if in 2 { mark := 7 }")).astray(0, 0), 16384);
         DUE.is(21, "73 copies", Due.house(1, text.replace("LAST", "mark := 7")).astray(0, 0), 16384);
         // actions that make the same copy make one: only with the mark 7 there are 8 at first
         DUE.is(21, "some make the same", Due.house(1, text.replace("LAST", "if in 0 { mark := 7 } else { pass }")).astray(0, 0), 2048);

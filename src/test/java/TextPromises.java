@@ -1,6 +1,7 @@
 /** Promises 9 to 14: the text, its errors, and load. */
 public final class TextPromises {
     private static final Due DUE = new Due();
+    private static final int NONE = FlowHouse.NONE;
 
     public static void main(String[] args) {
         type();
@@ -36,6 +37,11 @@ public final class TextPromises {
         DUE.is(9, "up to 2500", x.type(0, 0x0100010001000100L, 0, 0, 0, 0), 2500);
         DUE.is(9, "no bytes at the full text", x.type(0, 0, 0, 0, 0, 0), 2500);
         DUE.noState(9, "one more", () -> x.type(0, 0, 0, 0, 0, 1));
+        for (int i = 0; i < 6; i++) {
+            long[] six = new long[6];
+            six[i] = 0x0100000000000000L;
+            DUE.noState(9, "one more in number " + i, () -> x.type(six[0], six[1], six[2], six[3], six[4], six[5]));
+        }
     }
 
     private static void piece() {
@@ -92,6 +98,18 @@ public final class TextPromises {
         x.load();
         x.clearText();
         DUE.is(11, "the store stays", x.count(5), 1);
+        // nothing of a text before is read
+        FlowHouse y = new FlowHouse();
+        errorBehind(y, "slice a{to=15}  ", 0, NONE);
+        errorBehind(y, "slice a{to=1", 2, 12);
+        errorBehind(y, "slice a{to=1 .. 7}", 0, NONE);
+        errorBehind(y, "slice a{to=1 .", 1, 13);
+        errorBehind(y, "policy a{to:=1}", 0, NONE);
+        errorBehind(y, "policy a{to:", 1, 11);
+        errorBehind(y, "slice abcd{any}", 0, NONE);
+        errorBehind(y, "slice a", 2, 7);
+        errorBehind(y, "slice a          ", 2, 17);
+        errorBehind(y, "slice a ", 2, 8);
     }
 
     /** The text has its first error, of this kind, at this place; 0 and NONE without one. */
@@ -123,6 +141,7 @@ public final class TextPromises {
         fine("policy a{out1;to:=3}slice b{from=1..2and kind=0}");
         fine("policy a\n{\nout\n1\n}\n");
         fine("policy a{out 0001}");
+        fine("policy az{out 1}slice zz{any}");
         error("A", 1, 0);
         error(" \t", 1, 1);
         error("policy a{out 1\r}", 1, 14);
@@ -214,6 +233,8 @@ public final class TextPromises {
         fine("slice a {" + "(".repeat(19) + "any" + ")".repeat(19) + " and " + "(".repeat(19) + "any" + ")".repeat(19) + "}");
         fine("policy a {" + "if any {".repeat(19) + "drop" + "}".repeat(20));
         error("policy a {" + "if any {".repeat(20) + "drop" + "}".repeat(21), 3, 10 + 19 * 8 + 7);
+        fine("policy a {" + "if any { drop } else {".repeat(19) + "drop" + "}".repeat(20));
+        error("policy a {" + "if any { drop } else {".repeat(20), 3, 10 + 19 * 22 + 7);
         fine("policy a {" + "at 1 {".repeat(19) + "drop" + "}".repeat(20));
         error("policy a {" + "at 1 {".repeat(20) + "drop", 3, 10 + 19 * 6 + 5);
         error("policy a {" + "(".repeat(19) + "if any { drop }" + ")".repeat(19) + "}", 3, 29 + 7);

@@ -15,6 +15,13 @@ public final class UpdatePromises {
             + "if mark = 1 or mark = 2 or mark = 4 or mark = 7 { out 1 } else { out 2 } } else { "
             + "if mark = 2 or mark = 4 or mark = 7 { out 1 } else { out 2 } } } policy a { out 1 }";
 
+    /** 32 rules of odd and even numbers of bits in from, or in to, and the first bit of mark; and 9 rules. */
+    private static final String ODD = "= 1 or F = 2 or F = 4 or F = 7 or F = 8 or F = 11 or F = 13 or F = 14 "
+            + "{ if mark = 0 .. 3 { out 1 } else { out 2 } } else { if mark = 0 .. 3 { out 2 } else { out 1 } } } ";
+    private static final String MANY = "policy a { if from " + ODD.replace("F", "from") + "policy b { if to " + ODD.replace("F", "to")
+            + "policy nine { if in 0 { if mark = 1 or mark = 2 or mark = 4 or mark = 7 { out 1 } else { out 2 } } else { if in 1 { out 1 } } }"
+            + "policy eight { if in 0 { if mark = 1 or mark = 2 or mark = 4 or mark = 7 { out 1 } else { out 2 } } }";
+
     public static void main(String[] args) {
         updateFails();
         updatesFollow();
@@ -26,6 +33,7 @@ public final class UpdatePromises {
         cancel();
         stopAndStart();
         startInEachPhase();
+        rulesThatJustFit();
         hello();
         withoutSwitches();
         updateAt();
@@ -423,6 +431,46 @@ public final class UpdatePromises {
         DUE.is(26, "refused once more", y.updateAt(0, 4), FlowHouse.WAS_REFUSED);
     }
 
+    private static void rulesThatJustFit() {
+        FlowHouse x = Due.house(2, MANY);
+        DUE.is(16, "the rules of a", x.rules(0, 0), 32);
+        DUE.is(16, "the rules of nine", x.rules(2, 0), 9);
+        x.update(0, NONE, 0);
+        x.settle();
+        x.update(2, NONE, 0);
+        x.settle();
+        DUE.is(23, "one rule too many", x.updateAt(1, 4), FlowHouse.WAS_REFUSED);
+        x.update(3, NONE, 0);
+        x.settle();
+        DUE.is(23, "40 rules", x.switchAt(0, 0), 40);
+        DUE.is(23, "none was refused", x.controllerAt(0), WAITING);
+        // in mode 1, rules that are added ahead of those that are removed may not fit
+        FlowHouse y = Due.house(2, MANY);
+        y.update(0, NONE, 0);
+        y.settle();
+        y.update(1, NONE, 1);
+        y.stop();
+        y.start();
+        ask(y);
+        y.settle();
+        DUE.is(23, "removed first", y.updateAt(1, 4), FlowHouse.ENDED);
+        FlowHouse z = Due.house(2, MANY);
+        z.update(0, NONE, 0);
+        z.settle();
+        z.update(1, NONE, 1);
+        for (int i = 0; i < 32; i++) {
+            DUE.is(29, "ADD", z.deliver(0, 32), FlowHouse.ADD);
+        }
+        carryOutAll(z);
+        DUE.are(32, "the answer", i -> z.answerAt(0, i), FlowHouse.DONE, 0, 3, 24);
+        z.answer(0);
+        z.stop();
+        z.start();
+        z.settle();
+        DUE.is(26, "refused is not known behind a stop", z.updateAt(1, 4), FlowHouse.ENDED);
+        DUE.is(26, "all rules are there", z.switchAt(0, 0), 32);
+    }
+
     /** Lets the round of ASKING end; what is sent then stays. */
     private static void ask(FlowHouse x) {
         carryOutAll(x);
@@ -438,6 +486,10 @@ public final class UpdatePromises {
         messagesAre(x, 0, FlowHouse.STAMP, 0, FlowHouse.BARRIER, 0);
         x.settle();
         x.update(0, NONE, 0);
+        x.settle();
+        x.restart(0);
+        x.answer(0);
+        messagesAre(x, 0, FlowHouse.ADD, 0, FlowHouse.STAMP, 1, FlowHouse.BARRIER, 0);
         x.settle();
         x.update(1, 0, 0);
         carryOutAll(x);
