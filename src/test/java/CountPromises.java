@@ -61,9 +61,9 @@ public final class CountPromises {
 
     private static void checks() {
         FlowHouse x = Due.house(1, "policy a { out 1 | if to = 1 { out 2 } } policy b { if mark = 0 .. 3 { out 2 } else { out 1 } } slice s { mark = 1 .. 5 }");
-        for (int i = 0; i < 6; i++) {
+        for (int i = 0; i < 4; i++) {
             int update = x.update(i % 2, i % 3 == 1 ? 0 : NONE, 0);
-            for (int step = 0; step < 12; step++) {
+            for (int step = 0; step < 10; step++) {
                 x.deliver(step % 4, 7 * step + i);
                 x.deliver(step % 3, 3 * step);
                 x.answer(step);
@@ -79,9 +79,6 @@ public final class CountPromises {
                 x.setLink(step % 4, step % 5 > 0);
                 DUE.is(45, "isConsistent()", x.isConsistent(), true);
                 DUE.is(46, "errors()", x.errors(), 0);
-                if (x.count(7) == 60) {
-                    return;
-                }
             }
             x.settle();
             x.pass(109);

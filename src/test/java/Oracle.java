@@ -112,6 +112,8 @@ final class Oracle {
         int next;
         int depth;
         boolean inSlice;
+        /** The switches that a policy names. */
+        final Set<Integer> named = new HashSet<>();
         final List<Plan> plans = new ArrayList<>();
         final List<Slice> slices = new ArrayList<>();
         final Map<String, Plan> cache;
@@ -217,6 +219,7 @@ final class Oracle {
             int start = now().place;
             deeper("{");
             inSlice = false;
+            named.clear();
             Part part = policy();
             if (!isNow("}")) {
                 throw wrong();
@@ -229,8 +232,16 @@ final class Oracle {
             if (known == null) {
                 known = new Plan();
                 known.maker = part.maker;
+                // a policy tells the same of all switches that no "at" of it names
+                Table others = null;
                 for (int at = 0; at < 8; at++) {
-                    known.tables[at] = tabulate(part.maker, at, known);
+                    boolean isNamed = named.contains(at);
+                    if (isNamed || others == null) {
+                        known.tables[at] = tabulate(part.maker, at);
+                        others = isNamed ? others : known.tables[at];
+                    } else {
+                        known.tables[at] = others;
+                    }
                 }
                 cache.put(key, known);
             }
@@ -346,6 +357,7 @@ final class Oracle {
                 do {
                     set.add(number(0, 7));
                 } while (skip(","));
+                named.addAll(set);
                 deeper("{");
                 Part inner = policy();
                 higher("}");
@@ -447,7 +459,7 @@ final class Oracle {
         return new ArrayList<>(sorted.values());
     }
 
-    static Table tabulate(Maker maker, int at, Plan plan) {
+    static Table tabulate(Maker maker, int at) {
         Table table = new Table();
         Map<String, Integer> ids = new HashMap<>();
         for (int row = 0; row < 131072; row++) {
