@@ -2,7 +2,8 @@
 public final class EdgesOfNetwork {
     private static final int NONE = -1;
     private static final int MAX = Integer.MAX_VALUE, MIN = Integer.MIN_VALUE;
-    private static final Class<? extends RuntimeException> INDEX = Run.INDEX, ARGUMENT = Run.ARGUMENT, STATE = Run.STATE;
+    private static final Class<? extends RuntimeException> INDEX = Run.INDEX, ARGUMENT = Run.ARGUMENT,
+            STATE = Run.STATE;
     private static final String OUT_ONE = "policy a { out 1 }";
 
     public static void main(String[] args) throws ReflectiveOperationException {
@@ -48,7 +49,8 @@ public final class EdgesOfNetwork {
         Run x = new Run(1, "a house without switches, policies and text; the controller is IDLE");
         x.are("count", Run.of(), 0, 0, 0, 0, 0, 0, 0, 0, 0, 0, 0, 0, 0, 0, 0, 0);
         x.are("controllerAt", Run.of(), 0, 0, 0, 0, 0, 0, NONE, 0, 0);
-        x.is(0, "errorKind").is(NONE, "errorPlace").is(0, "settle").is(NONE, "answer", 0).is(0, "clearText").is(0, "load");
+        x.is(0, "errorKind").is(NONE, "errorPlace").is(0, "settle").is(NONE, "answer", 0).is(0, "clearText")
+                .is(0, "load");
         x.is(1, "isConsistent").is(0, "errors").isReal("0.0", "deliveredShare").isReal("0.0", "meanRules");
         x.is(0, "pass", 1).is(1, "count", 0);
     }
@@ -161,7 +163,8 @@ public final class EdgesOfNetwork {
         x.call("addLink", 0, 0, 1, 0, 1);
         x.refuses(INDEX, "addLink", 3, 6, 1, 1, 1).refuses(INDEX, "addLink", 1, 1, 3, 1, 10);
         x.refuses(INDEX, "addLink", 3, 1, 3, 2, 1).refuses(INDEX, "addLink", 0, 0, 3, 0, 1);
-        x.refuses(INDEX, "addLink", 3, 1, 1, 6, 1).refuses(INDEX, "addLink", 0, 6, 3, 1, 1).refuses(INDEX, "addLink", 0, 1, 3, -1, 0);
+        x.refuses(INDEX, "addLink", 3, 1, 1, 6, 1).refuses(INDEX, "addLink", 0, 6, 3, 1, 1)
+                .refuses(INDEX, "addLink", 0, 1, 3, -1, 0);
         x.refuses(ARGUMENT, "addLink", 0, 0, 1, 0, 0).refuses(ARGUMENT, "addLink", 0, 0, 1, 6, 1);
         x.refuses(ARGUMENT, "addLink", 0, -1, 1, 0, 1).refuses(ARGUMENT, "addLink", 0, 0, 0, 0, 1);
         x.text(OUT_ONE).call("load").call("update", 0, NONE, 0);
@@ -201,7 +204,8 @@ public final class EdgesOfNetwork {
     private static void untilTheFirstUpdate() {
         Run x = new Run(2, "the network can be added to until the first update is begun");
         x.house(2, OUT_ONE + "slice s { any }");
-        x.refuses(INDEX, "update", 1, NONE, 0).refuses(ARGUMENT, "update", 0, NONE, 2).refuses(STATE, "update", 0, NONE, 1);
+        x.refuses(INDEX, "update", 1, NONE, 0).refuses(ARGUMENT, "update", 0, NONE, 2)
+                .refuses(STATE, "update", 0, NONE, 1);
         x.call("send", 0, 0).call("stop").call("start").call("settle").call("pass", 200);
         x.is(3, "addSwitch").is(2, "addLink", 3, 0, 2, 5, 4).is(3, "addHost", 3, 3);
         x.is(0, "update", 0, NONE, 0);
@@ -216,14 +220,16 @@ public final class EdgesOfNetwork {
 
     private static void build() {
         Run x = new Run(5, "which is 0 to 2");
-        x.refuses(ARGUMENT, "build", -1).refuses(ARGUMENT, "build", 3).refuses(ARGUMENT, "build", MAX).is(0, "count", 1);
+        x.refuses(ARGUMENT, "build", -1).refuses(ARGUMENT, "build", 3).refuses(ARGUMENT, "build", MAX)
+                .is(0, "count", 1);
         x.is(4, "build", 0).refuses(STATE, "build", 0).refuses(STATE, "build", 2);
         x.refuses(ARGUMENT, "build", -1).refuses(ARGUMENT, "build", 3);
         x.are("count", Run.of(), 0, 4, 4, 4).is(4, "addSwitch").is(4, "addHost", 4, 0).is(4, "addLink", 4, 1, 0, 5, 1);
         new Run(5, "the last network").is(3, "build", 2).are("count", Run.of(), 0, 3, 2, 3).refuses(STATE, "build", 1);
         new Run(5, "the network in the middle").is(4, "build", 1).are("count", Run.of(), 0, 4, 4, 4);
         Run y = new Run(5, "there is a switch").call("addSwitch");
-        y.refuses(STATE, "build", 0).refuses(STATE, "build", 1).refuses(STATE, "build", 2).refuses(ARGUMENT, "build", 3);
+        y.refuses(STATE, "build", 0).refuses(STATE, "build", 1).refuses(STATE, "build", 2)
+                .refuses(ARGUMENT, "build", 3);
         y.are("count", Run.of(), 0, 1, 0, 0);
         y.are("portAt", Run.of(0), NONE, NONE, NONE, NONE, NONE, NONE);
     }
@@ -241,7 +247,8 @@ public final class EdgesOfNetwork {
         x.is(0, "setLink", 0, 1).is(0, "copyAt", 2, 1, 0).is(1, "setLink", 0, 0).is(0, "setLink", 0, 0);
         x.are("copyAt", Run.of(0, 1), 5, 0, 0, 1, NONE, NONE, NONE, 1, 0);
         x.are("copyAt", Run.of(1, 1), 5, 0, 0, 1, NONE, NONE, NONE, 0, 0);
-        Run y = new Run(6, "the link with the greatest number").house(2, OUT_ONE).call("update", 0, NONE, 0).call("settle");
+        Run y = new Run(6, "the link with the greatest number").house(2, OUT_ONE).call("update", 0, NONE, 0)
+                .call("settle");
         y.is(0, "setLink", 1, 0).call("send", 0, 0).is(1, "pass", 9).is(5, "copyAt", 0, 2, 0).is(9, "copyAt", 0, 2, 8);
     }
 

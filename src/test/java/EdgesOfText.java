@@ -77,7 +77,8 @@ public final class EdgesOfText {
         x.is(13, "type", 0x6e, 0x7900000000000000L, 0x007d00, 0, 0, 0).is(0, "errorKind");
         x.is(0, "load").is(1, "count", 5).is(0, "count", 14);
         Run y = new Run(9, "all bytes of six numbers").is(48, "type", -1, -1, -1, -1, -1, -1).is(1, "errorKind");
-        y.is(96, "type", Long.MAX_VALUE, Long.MAX_VALUE, Long.MAX_VALUE, Long.MAX_VALUE, Long.MAX_VALUE, Long.MAX_VALUE);
+        y.is(96, "type", Long.MAX_VALUE, Long.MAX_VALUE, Long.MAX_VALUE, Long.MAX_VALUE, Long.MAX_VALUE,
+                Long.MAX_VALUE);
         y.is(97, "type", Long.MIN_VALUE, 0, 0, 0, 0, 0).is(98, "type", 0, 0, 0, 0, 0, 1);
         for (int i = 0; i < 6; i++) {
             for (int shift = 0; shift < 64; shift += 8) {
@@ -93,7 +94,8 @@ public final class EdgesOfText {
     private static void textOf2500() {
         Run x = new Run(9, "the text has at most 2500 bytes").text(BLANKS.substring(0, 2496));
         x.refuses(STATE, "type", 0x2020202020L, 0, 0, 0, 0, 0).refuses(STATE, "type", -1, -1, -1, -1, -1, -1);
-        x.refuses(STATE, "type", 0x20, 0x20, 0x20, 0x20, 0x20, 0).refuses(STATE, "type", 0, 0x20, 0x20, 0x20, 0x20, 0x20);
+        x.refuses(STATE, "type", 0x20, 0x20, 0x20, 0x20, 0x20, 0)
+                .refuses(STATE, "type", 0, 0x20, 0x20, 0x20, 0x20, 0x20);
         x.refuses(STATE, "type", 0x2000000000000000L, 0, 0x2020, 0, 0x20, 0x20000000L);
         x.is(2496, "count", 14).is(2499, "type", 0x20, 0, 0x20, 0, 0, 0x20);
         x.refuses(STATE, "type", 0x20, 0x20, 0, 0, 0, 0).refuses(STATE, "type", 0, 0, 0, 0, 0x20, 0x20);
@@ -114,7 +116,8 @@ public final class EdgesOfText {
         x.refuses(ARGUMENT, "piece", MIN).is(0, "count", 14);
         for (int i = 0; i < 6; i++) {
             String piece = PIECES[i] + "\n";
-            Run y = new Run(10, "the piece " + i).is(piece.length(), "piece", i).is(0, "errorKind").is(i == 3 ? 0 : 1, "load");
+            Run y = new Run(10, "the piece " + i).is(piece.length(), "piece", i).is(0, "errorKind")
+                    .is(i == 3 ? 0 : 1, "load");
             Run z = new Run(10, "the piece " + i).text(piece).is(i == 3 ? 0 : 1, "load");
             y.sameAs(z);
         }
@@ -212,12 +215,18 @@ public final class EdgesOfText {
     }
 
     private static void endOfTheText() {
-        String[] texts = {"policy", "policy a", "policy a {", "policy a { if", "policy a { if any", "policy a { if any {",
-            "policy a { at", "policy a { at 1", "policy a { at 1 ,", "policy a { at 1 , 7 {", "policy a { (", "policy a { ( drop",
-            "policy a { drop", "policy a { drop ;", "policy a { drop |", "policy a { out", "policy a { out 1", "policy a { to", "policy a { to :=",
-            "policy a { to := 1", "policy a { if any { drop }", "policy a { if any { drop } else", "policy a { if any { drop } else {",
-            "slice", "slice a", "slice a {", "slice a { not", "slice a { (", "slice a { ( any", "slice a { any and", "slice a { any or", "slice a { any",
-            "slice a { to", "slice a { to =", "slice a { to = 1", "slice a { to = 1 ..", "slice a { to = 1 .. 2", "policy a { if in", "policy a { if in 1"};
+        String[] texts = {"policy", "policy a", "policy a {", "policy a { if", "policy a { if any",
+                "policy a { if any {",
+            "policy a { at", "policy a { at 1", "policy a { at 1 ,", "policy a { at 1 , 7 {", "policy a { (",
+                    "policy a { ( drop",
+            "policy a { drop", "policy a { drop ;", "policy a { drop |", "policy a { out", "policy a { out 1",
+                    "policy a { to", "policy a { to :=",
+            "policy a { to := 1", "policy a { if any { drop }", "policy a { if any { drop } else",
+                    "policy a { if any { drop } else {",
+            "slice", "slice a", "slice a {", "slice a { not", "slice a { (", "slice a { ( any", "slice a { any and",
+                    "slice a { any or", "slice a { any",
+            "slice a { to", "slice a { to =", "slice a { to = 1", "slice a { to = 1 ..", "slice a { to = 1 .. 2",
+                    "policy a { if in", "policy a { if in 1"};
         for (String text : texts) {
             error(text, 2, text.length());
             error(text + " ", 2, text.length() + 1);
@@ -285,13 +294,15 @@ public final class EdgesOfText {
         error("policy a { drop } , slice b { any }", 2, 18);
         error("slice a { any } any", 2, 16);
         // three and more in a row, each of which counts
-        Run x = new Run(14, "all parts of a test").text("slice a { from = 1 and to = 1 and kind = 1 and mark = 1 } slice b { from = 1 or to = 1 or kind = 1 or mark = 1 }").is(0, "load");
+        Run x = new Run(14, "all parts of a test")
+                .text("slice a { from = 1 and to = 1 and kind = 1 and mark = 1 } slice b { from = 1 or to = 1 or kind = 1 or mark = 1 }").is(0, "load");
         int[] fields = {1024, 64, 8, 1};
         x.is(1, "has", 0, 1024 + 64 + 8 + 1).is(0, "has", 1, 0);
         for (int one : fields) {
             x.is(0, "has", 0, 1024 + 64 + 8 + 1 - one).is(1, "has", 1, one);
         }
-        Run y = new Run(14, "all parts of a policy").text("policy a { out 1 | out 2 | out 3 | at 0, 3, 7 { out 0 } } policy b { from := 1 ; to := 2 ; kind := 3 ; mark := 4 ; out 5 }").is(2, "load");
+        Run y = new Run(14, "all parts of a policy")
+                .text("policy a { out 1 | out 2 | out 3 | at 0, 3, 7 { out 0 } } policy b { from := 1 ; to := 2 ; kind := 3 ; mark := 4 ; out 5 }").is(2, "load");
         for (int at = 0; at < 8; at++) {
             int first = at == 0 || at == 3 || at == 7 ? 0 : 1;
             for (int port = first; port < 4; port++) {
@@ -332,10 +343,14 @@ public final class EdgesOfText {
         error("policy a {" + times(19, "(") + "if any { drop }" + times(19, ")") + "}", 3, 10 + 19 + 7);
         error("policy a {" + times(19, "(") + "at 0 { drop }" + times(19, ")") + "}", 3, 10 + 19 + 5);
         // what was closed does not count
-        fine("policy a {" + times(19, "(") + "drop" + times(19, ")") + ";" + times(19, "(") + "drop" + times(19, ")") + "}");
-        error("policy a {" + times(19, "(") + "drop" + times(18, ")") + ";" + times(19, "(") + "drop", 3, 10 + 19 + 4 + 18 + 1 + 18);
-        fine("policy a { drop } policy b {" + times(19, "(") + "drop" + times(19, ")") + "} slice c {" + times(19, "not ") + "any}");
-        fine("policy a {" + times(18, "(") + "if (any) and (any) or (any) { drop } else { drop }" + times(18, ")") + "}");
+        fine("policy a {" + times(19, "(") + "drop" + times(19, ")") + ";" + times(19, "(") + "drop" + times(19, ")")
+                + "}");
+        error("policy a {" + times(19, "(") + "drop" + times(18, ")") + ";" + times(19, "(") + "drop", 3, 10 + 19 + 4
+                + 18 + 1 + 18);
+        fine("policy a { drop } policy b {" + times(19, "(") + "drop" + times(19, ")") + "} slice c {"
+                + times(19, "not ") + "any}");
+        fine("policy a {" + times(18, "(") + "if (any) and (any) or (any) { drop } else { drop }" + times(18, ")")
+                + "}");
     }
 
     private static void notWhoseFactHasEnded() {
@@ -344,7 +359,8 @@ public final class EdgesOfText {
         fine("slice a {" + times(40, "not to = 1 .. 2 or ") + "not any}");
         fine("slice a {" + times(19, "not ") + "any and " + times(19, "not ") + "any or " + times(19, "not ") + "any}");
         fine("slice a { not (" + times(17, "not ") + "any) and " + times(19, "not ") + "any}");
-        error("slice a {not (" + times(17, "not ") + "any and " + times(18, "not ") + "any)}", 3, 14 + 17 * 4 + 8 + 17 * 4);
+        error("slice a {not (" + times(17, "not ") + "any and " + times(18, "not ") + "any)}", 3, 14 + 17 * 4 + 8
+                + 17 * 4);
         fine("policy a {" + times(18, "(") + "if not any and not any or not to = 1 { drop }" + times(18, ")") + "}");
         // the { behind a test is no part of the fact
         fine("policy a {" + times(17, "(") + "if not not any { drop }" + times(17, ")") + "}");
@@ -364,7 +380,8 @@ public final class EdgesOfText {
         error("policy abcdefgh { drop } policy abcdefgh { drop }", 4, 32);
         // words of the language with a letter more or less are NAMEs, if they are no longer than 8
         fine("policy policyx { drop } slice slic { any } slice fro { any } slice froms { any } slice o { any } slice no { any }");
-        for (String word : new String[] {"policy", "slice", "drop", "pass", "out", "if", "else", "at", "or", "and", "not",
+        for (String word : new String[] {"policy", "slice", "drop", "pass", "out", "if", "else", "at", "or", "and",
+                "not",
             "any", "in", "from", "to", "kind", "mark"}) {
             error("policy " + word + " { drop }", 2, 7);
             error("slice " + word + " { any }", 2, 6);
@@ -379,7 +396,8 @@ public final class EdgesOfText {
         fine("policy a { drop } slice a { any } policy b { drop } slice b { any }");
         error("policy a { drop } policy b { drop } policy a", 4, 43);
         error("policy a { drop } policy b { drop } policy b", 4, 43);
-        Run x = new Run(12, "the NAME of another one in the store").text("policy a { drop } slice b { any }").is(1, "load");
+        Run x = new Run(12, "the NAME of another one in the store").text("policy a { drop } slice b { any }")
+                .is(1, "load");
         errorIn(x, "policy a { drop }", 4, 7);
         errorIn(x, "slice b { any }", 4, 6);
         errorIn(x, "slice a { any } policy b { drop }", 0, NONE);
@@ -424,7 +442,8 @@ public final class EdgesOfText {
     }
 
     private static void sixInTheStore() {
-        Run x = new Run(12, "a 7th one, of which some are in the store").text(many("policy", "drop", 0, 5)).is(5, "load");
+        Run x = new Run(12, "a 7th one, of which some are in the store").text(many("policy", "drop", 0, 5))
+                .is(5, "load");
         errorIn(x, many("policy", "drop", 5, 1), 0, NONE);
         errorIn(x, many("policy", "drop", 5, 2), 5, 14);
         errorIn(x, many("slice", "any", 0, 6), 0, NONE);
@@ -449,7 +468,8 @@ public final class EdgesOfText {
                 error("policy a { " + fields[f] + " := " + n + " }", isFine ? 0 : 6, isFine ? NONE : place);
                 error("slice a { " + fields[f] + " = " + n + " }", isFine ? 0 : 6, isFine ? NONE : place - 2);
                 error("slice a { " + fields[f] + " = 0 .. " + n + " }", isFine ? 0 : 6, isFine ? NONE : place + 3);
-                error("policy a { if " + fields[f] + " = " + n + " { drop } }", isFine ? 0 : 6, isFine ? NONE : place + 2);
+                error("policy a { if " + fields[f] + " = " + n + " { drop } }", isFine ? 0 : 6, isFine ? NONE : place
+                        + 2);
             }
         }
         for (int n : new int[] {0, 5, 6, 7, 8, 15, 16, 999}) {
@@ -530,7 +550,8 @@ public final class EdgesOfText {
             String text = "policy a {" + times(n, "(pass|pass|pass);") + "pass";
             error(text + "}", 7, text.length());
         }
-        String nine = "policy a {" + times(32, "(pass|drop|pass|pass|drop|pass);") + times(32, "(drop|drop);") + "drop | drop";
+        String nine = "policy a {" + times(32, "(pass|drop|pass|pass|drop|pass);") + times(32, "(drop|drop);")
+                + "drop | drop";
         error(nine + "}", 7, nine.length());
     }
 
@@ -546,7 +567,8 @@ public final class EdgesOfText {
             error(text + "}", 8, text.length());
             fine("policy a { at " + at + " { " + SIXTY + " } }");
         }
-        Run x = new Run(16, "60 rules").text("policy a { at 7 { " + SIXTY + " } }").is(1, "load").is(60, "rules", 0, 7).is(0, "rules", 0, 6);
+        Run x = new Run(16, "60 rules").text("policy a { at 7 { " + SIXTY + " } }").is(1, "load").is(60, "rules", 0, 7)
+                .is(0, "rules", 0, 6);
         x.are("ruleAt", Run.of(0, 7, 59), 63, 63, 1).refuses(Run.INDEX, "ruleAt", 0, 7, 60, 0);
         String text = "policy b { drop } policy a { " + SIXTY_ONE + " ";
         error(text + "} A", 8, text.length());
@@ -554,13 +576,15 @@ public final class EdgesOfText {
         error(text + "; drop }", 0, NONE);
         error(text + "A", 1, text.length());
         // many more than 60, and rules that would be more before they are found to be the same
-        String all = "policy a { if from = 1 or from = 2 or from = 4 or from = 7 { " + SIXTY + " } else { " + SIXTY_ONE + " } ";
+        String all = "policy a { if from = 1 or from = 2 or from = 4 or from = 7 { " + SIXTY + " } else { " + SIXTY_ONE
+                + " } ";
         error(all + "}", 8, all.length());
         fine("policy a { if from = 1 or from = 2 or from = 4 or from = 7 { " + SIXTY + " } else { " + SIXTY + " } }");
         // 61 rules and more of the rows with 0, or with 1, at the first bit, at the second one, at both
         String two = "if to = 8 .. 11 { " + SIXTY + " } else { out 3 }";
         for (String half : new String[] {two, SIXTY, "if kind = 0 { drop } else { " + SIXTY + " }"}) {
-            String[] texts = {"if from = 0 .. 7 { " + half + " } else { out 4 }", "if from = 8 .. 15 { " + half + " } else { out 4 }",
+            String[] texts = {"if from = 0 .. 7 { " + half + " } else { out 4 }", "if from = 8 .. 15 { " + half
+                    + " } else { out 4 }",
                 "if to = 0 .. 7 { drop } else { if from = 0 .. 7 { " + half + " } else { out 4 } }"};
             boolean areFew = half.startsWith("if kind = 0");
             for (String body : texts) {
@@ -570,15 +594,20 @@ public final class EdgesOfText {
     }
 
     private static void rulesOfATextBefore() {
-        Run x = new Run(14, "nothing of a text that was not loaded is left").text("policy a { if mark = 1 { out 1 } else { out 2 } } policy b { out 1 } x").is(2, "errorKind");
-        x.call("clearText").text("policy a { at 1 { out 2 } } policy b { at 2, 3 { out 3 } | at 4 { if kind = 7 { out 0 } } }").is(2, "load");
+        Run x = new Run(14, "nothing of a text that was not loaded is left")
+                .text("policy a { if mark = 1 { out 1 } else { out 2 } } policy b { out 1 } x").is(2, "errorKind");
+        x.call("clearText")
+                .text("policy a { at 1 { out 2 } } policy b { at 2, 3 { out 3 } | at 4 { if kind = 7 { out 0 } } }")
+                .is(2, "load");
         int[] a = {0, 1, 0, 0, 0, 0, 0, 0};
         int[] b = {0, 0, 1, 1, 1, 0, 0, 0};
         for (int at = 0; at < 8; at++) {
             x.is(a[at], "rules", 0, at).is(b[at], "rules", 1, at);
         }
-        x.are("ruleAt", Run.of(1, 3, 0), 0, 0, 1).are("ruleAt", Run.of(1, 4, 0), 56, 56, 1).is(3, "actionAt", 1, 3, 0, 0, 0).is(2, "actionAt", 0, 1, 0, 0, 0);
-        Run y = new Run(14, "nor of a text whose rules were too many").text("policy a { " + SIXTY_ONE + " }").is(8, "errorKind").call("clearText").text("policy a { out 1 }").is(1, "load");
+        x.are("ruleAt", Run.of(1, 3, 0), 0, 0, 1).are("ruleAt", Run.of(1, 4, 0), 56, 56, 1)
+                .is(3, "actionAt", 1, 3, 0, 0, 0).is(2, "actionAt", 0, 1, 0, 0, 0);
+        Run y = new Run(14, "nor of a text whose rules were too many").text("policy a { " + SIXTY_ONE + " }")
+                .is(8, "errorKind").call("clearText").text("policy a { out 1 }").is(1, "load");
         for (int at = 0; at < 8; at++) {
             y.is(1, "rules", 0, at).are("ruleAt", Run.of(0, at, 0), 0, 0, 1);
         }
@@ -620,7 +649,8 @@ public final class EdgesOfText {
         error("policy a {" + times(20, "(") + "A", 3, 29);
         error("policy a { " + EIGHT + " | pass } policy a", 7, 11 + EIGHT.length() + 8);
         Run x = new Run(12, "the first error as the text grows");
-        x.is(0, "errorKind").text("policy a { out").is(2, "errorKind").is(14, "errorPlace").text(" ").is(2, "errorKind").is(15, "errorPlace");
+        x.is(0, "errorKind").text("policy a { out").is(2, "errorKind").is(14, "errorPlace").text(" ").is(2, "errorKind")
+                .is(15, "errorPlace");
         x.text("5").is(2, "errorKind").is(16, "errorPlace").text("}").is(0, "errorKind").is(NONE, "errorPlace");
         x.text("}").is(2, "errorKind").is(17, "errorPlace").refuses(STATE, "load").call("clearText").is(0, "errorKind");
     }
@@ -629,16 +659,20 @@ public final class EdgesOfText {
 
     private static void load() {
         Run x = new Run(14, "puts all into the store, and empties the text").is(0, "load").is(0, "load");
-        x.text("policy a { out 1 } slice s { any }").is(1, "load").is(0, "count", 14).is(1, "count", 4).is(1, "count", 5);
+        x.text("policy a { out 1 } slice s { any }").is(1, "load").is(0, "count", 14).is(1, "count", 4)
+                .is(1, "count", 5);
         x.is(1, "load").is(1, "count", 4).text("slice t { not any }").is(1, "load").is(2, "count", 5);
         x.is(1, "has", 0, 0).is(0, "has", 1, 0).text("policy b { out 2 } policy c { out 3 }").is(3, "load");
         x.is(1, "actionAt", 0, 0, 0, 0, 0).is(2, "actionAt", 1, 0, 0, 0, 0).is(3, "actionAt", 2, 0, 0, 0, 0);
         x.text("policy d { out 4 } policy e { out 5 } policy f { out 0 } policy g { drop }").refuses(STATE, "load");
-        x.is(3, "count", 4).refuses(Run.INDEX, "rules", 3, 0).refuses(Run.INDEX, "update", 3, NONE, 0).call("clearText");
-        x.text("policy d { out 4 } policy e { out 5 } policy f { out 0 }").is(6, "load").is(0, "actionAt", 5, 0, 0, 0, 0);
+        x.is(3, "count", 4).refuses(Run.INDEX, "rules", 3, 0).refuses(Run.INDEX, "update", 3, NONE, 0)
+                .call("clearText");
+        x.text("policy d { out 4 } policy e { out 5 } policy f { out 0 }").is(6, "load")
+                .is(0, "actionAt", 5, 0, 0, 0, 0);
         x.is(1, "actionAt", 0, 0, 0, 0, 0).is(6, "load");
         // the store can be added to while updates go on
         Run y = new Run(14, "while an update goes on").house(2, "policy a { out 1 }").call("update", 0, NONE, 0);
-        y.text("policy b { out 2 }").is(2, "load").call("settle").call("update", 1, NONE, 0).call("settle").is(3, "controllerAt", 0);
+        y.text("policy b { out 2 }").is(2, "load").call("settle").call("update", 1, NONE, 0).call("settle")
+                .is(3, "controllerAt", 0);
     }
 }
