@@ -25,6 +25,7 @@ public final class EdgesOfText {
         piecesThatJustFit();
         clearText();
         eachByteAlone();
+        bytesOfLongTokens();
         tokensAreAsLongAsPossible();
         numbersUpTo999();
         endOfTheText();
@@ -165,6 +166,20 @@ public final class EdgesOfText {
             } else {
                 // "at" is a word of the language
                 error(name, kind, one == 't' ? 6 : one == '{' ? 8 : 7);
+            }
+        }
+    }
+
+    private static void bytesOfLongTokens() {
+        for (int one = 1; one < 256; one++) {
+            boolean isLetter = one >= 'a' && one <= 'z';
+            boolean isToken = isLetter || one >= '0' && one <= '9' || "{}();,|=".indexOf(one) >= 0;
+            if (!isToken && one != 32 && one != 10) {
+                // of := and .. each byte counts
+                error("policy a{to" + (char) one + "=1}", one == ':' ? 0 : 1, one == ':' ? NONE : 11);
+                error("slice a{to=1" + (char) one + ".2}", one == '.' ? 0 : 1, one == '.' ? NONE : 12);
+                error("policy a{to:" + (char) one + "1}", 1, 11);
+                error("slice a{to=1." + (char) one + "2}", one == '.' ? 0 : 1, one == '.' ? NONE : 12);
             }
         }
     }

@@ -38,6 +38,7 @@ public final class EdgesOfUpdates {
         refusedInAdding();
         refusedAndCancelled();
         refusedInAnotherRound();
+        refusedInStamping();
         refusedInChanging();
         theListOfTheController();
         waits109();
@@ -363,6 +364,21 @@ public final class EdgesOfUpdates {
                 .is(WAITING, "controllerAt", 0).is(GOES_ON, "updateAt", 2, 4);
     }
 
+    private static void refusedInStamping() {
+        // switch 0 refuses 24 rules of the policy in mode 1, so it has room for a rule of the next one, until it restarts
+        String other = FORTY.replace("kind", "KIND").replace("mark", "kind").replace("KIND", "mark");
+        Run x = new Run(23, "rules that are refused in STAMPING do not matter")
+                .house(2, "policy full { " + FORTY + " } policy other { " + other
+                        + " } policy first { at 0 { out 1 } }");
+        x.call("update", 0, NONE, 0).call("settle").call("update", 1, NONE, 1).times(40, "deliver", 0, 24)
+                .call("settle");
+        x.is(WAS_REFUSED, "updateAt", 1, 4).is(16, "switchAt", 0, 0).is(40, "switchAt", 1, 0);
+        x.call("update", 2, NONE, 0).carryOut(3).answers(3).is(STAMPING, "controllerAt", 0).is(17, "restart", 0);
+        x.is(HELLO, "answer", 0).carryOut(1).are("answerAt", Run.of(0), 0, 0, 0, 0)
+                .are("answerAt", Run.of(1), 0, 0, 5, 1);
+        x.call("settle").is(WAITING, "controllerAt", 0).call("pass", 109).call("settle").is(ENDED, "updateAt", 2, 4);
+    }
+
     private static void refusedInChanging() {
         Run x = new Run(23, "in mode 1 it is refused, and the tables stay as they are").house(2, FULL)
                 .call("update", 2, NONE, 0).call("settle");
@@ -490,10 +506,16 @@ public final class EdgesOfUpdates {
             {BARRIER, 0, ADD, 1, ADD, 1, STAMP, 1, BARRIER, 0, CLEAR, 0, BARRIER, 7},
             {ADD, 0, ADD, 0, STAMP, 1, BARRIER, 0, REMOVE, 0, ADD, 0, ADD, 0, STAMP, 1, BARRIER, 5},
             {STAMP, 0, BARRIER, 0}};
+        int[] asking = {1, 2, 3, 5, 6, 4, 2};
         for (int phase = IDLE; phase <= ASKING; phase++) {
+            Run x = in(phase, 26,
+                    "ASKING is a round without other messages; then each switch is brought up, ahead of what follows");
+            x.carryOut(3).call("stop").call("start");
+            for (int at = 0; at < 3; at++) {
+                messages(x, at, BARRIER, asking[phase]);
+            }
+            x.carryOut(3).answers(2).is(0, "count", 13).answers(1);
             // the round of ASKING is over, that of the phase has not begun: the last BARRIER of the bring-up has the number 0
-            Run x = in(phase, 26, "each switch is brought up, ahead of what follows").carryOut(3).call("stop")
-                    .call("start").carryOut(3).answers(2).is(0, "count", 13).answers(1);
             for (int at = 0; at < 3; at++) {
                 messages(x, at, due[phase]);
             }
