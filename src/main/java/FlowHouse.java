@@ -545,27 +545,34 @@ public final class FlowHouse {
 
         int get(int row, int column) {
             boolean isThere = row >= 0 && row < size && column >= 0 && column < columns;
-            return isThere ? cells[(gone + row) * columns + column] : 0;
+            int cell = isThere ? (gone + row) * columns + column : NONE;
+            return cell >= 0 && cell < cells.length ? cells[cell] : 0;
         }
 
         void set(int row, int column, int value) {
-            if (row >= 0 && row < size && column >= 0 && column < columns) {
-                cells[(gone + row) * columns + column] = value;
+            boolean isThere = row >= 0 && row < size && column >= 0 && column < columns;
+            int cell = isThere ? (gone + row) * columns + column : NONE;
+            if (cell >= 0 && cell < cells.length) {
+                cells[cell] = value;
             }
         }
 
-        /** Adds a row with these numbers in front and 0 in its further columns. */
+        /** Adds a row with these numbers in front and 0 in its further columns; NONE if there are far too many. */
         int add(int a, int b, int c, int d) {
             if ((gone + size + 1) * columns > cells.length) {
-                if (gone > 0) {
+                if (gone > 0 && (gone + size) * columns <= cells.length) {
                     System.arraycopy(cells, gone * columns, cells, 0, size * columns);
                     gone = 0;
-                } else {
+                } else if (cells.length < FAR) {
                     cells = Arrays.copyOf(cells, cells.length * 2);
                 }
             }
-            int row = size++;
+            int row = size;
             int from = (gone + row) * columns;
+            if (from < 0 || from + columns > cells.length) {
+                return NONE;
+            }
+            size++;
             for (int i = from; i < from + columns && i < cells.length; i++) {
                 cells[i] = 0;
             }
@@ -580,11 +587,12 @@ public final class FlowHouse {
             if (row < 0 || row >= size) {
                 return;
             }
+            int from = (gone + row) * columns;
+            int rest = (size - row - 1) * columns;
             if (row == 0) {
                 gone++;
-            } else {
-                int from = (gone + row) * columns;
-                System.arraycopy(cells, from + columns, cells, from, (size - row - 1) * columns);
+            } else if (from >= 0 && from + columns + rest <= cells.length) {
+                System.arraycopy(cells, from + columns, cells, from, rest);
             }
             size--;
         }

@@ -17,6 +17,8 @@ public final class EdgesOfCounts {
         shares();
         means();
         alwaysConsistent();
+        consistentOfMost();
+        errorsOfEachState();
         calls512();
         callsOfOneKind();
         manyCopies();
@@ -101,6 +103,30 @@ public final class EdgesOfCounts {
             x.call("start").call("settle").is(1, "isConsistent").is(0, "errors").call("pass", 109).is(1, "isConsistent")
                     .call("settle").is(1, "isConsistent").is(0, "errors");
         }
+    }
+
+    private static void consistentOfMost() {
+        Run x = new Run(45, "true, with as many switches as there can be; promise 46: 0").times(8, "addSwitch")
+                .text("policy a { out 1 } policy b { if mark = 0 { out 1 } }").call("load").is(1, "isConsistent")
+                .is(0, "errors");
+        for (int i = 0; i < 2; i++) {
+            x.call("update", i, NONE, 0).is(1, "isConsistent").is(0, "errors").call("settle").is(1, "isConsistent")
+                    .is(0, "errors");
+        }
+        x.call("restart", 7).is(1, "isConsistent").is(0, "errors").call("settle").is(2, "switchAt", 7, 0)
+                .is(1, "isConsistent").is(0, "errors");
+    }
+
+    private static void errorsOfEachState() {
+        Run x = new Run(46, "copies that are under way on a link that is down, or should have arrived: no others")
+                .house(1, "policy a { if mark = 0 { out 1 | out 2 | out 3 } else { if mark = 1 { out 1 } } }")
+                .call("update", 0, NONE, 0).call("settle");
+        x.call("send", 0, 2).is(3, "copyAt", 0, 0, 0).is(0, "errors").call("send", 0, 0).is(2, "copyAt", 1, 2, 0)
+                .is(4, "copyAt", 1, 3, 0).is(0, "errors").call("send", 0, 1).is(0, "copyAt", 2, 1, 0).is(0, "errors");
+        x.is(2, "setLink", 0, 0).is(5, "copyAt", 2, 1, 0).is(0, "errors").call("send", 0, 0).is(5, "copyAt", 3, 1, 0)
+                .is(0, "errors").call("pass", 9).is(0, "errors");
+        x.call("setLink", 0, 1).call("send", 0, 1).call("pass", 30).is(6, "copyAt", 4, 13, 0).is(0, "errors")
+                .call("setLink", 0, 0).is(0, "errors");
     }
 
     // ---- what it is: at most 512 calls

@@ -342,6 +342,12 @@ public final class EdgesOfPackets {
         x.call("restart", 0).call("send", 0, 0).is(0, "isWhole", 3).is(2, "count", 12).call("answer", 0)
                 .call("answer", 0).call("settle").call("send", 0, 0).is(1, "isWhole", 4).is(1, "setLink", 0, 0)
                 .is(0, "isWhole", 4);
+        // the messages are ADD, STAMP, BARRIER; the choice 1 of them is STAMP, so that only the rule is missing
+        Run y = running(42, "no copy was dropped for which the policy has an action, be it the first one", 2,
+                "policy a { if mark = 0 { out 1 } }").call("restart", 0).call("answer", 0);
+        y.is(3, "deliver", 0, 1).call("send", 0, 0).call("send", 0, 1).is(0, "packetAt", 0, 3)
+                .is(DROPPED, "copyAt", 0, 0, 0).is(1, "isBy", 0, 0).is(0, "isWhole", 0).is(1, "isWhole", 1)
+                .is(1, "count", 12);
     }
 
     private static void deliveredAt() {

@@ -556,6 +556,10 @@ public final class EdgesOfUpdates {
                 .is(HELLO, "answer", 0).is(2, "messageAt", 1, 0, 1).call("deliver", 1, 0).is(ASKING, "controllerAt", 0)
                 .is(0, "answer", 0);
         x.is(IDLE, "controllerAt", 0).is(4, "count", 13);
+        // STAMP and BARRIER; the switch that comes behind the round has nothing of it
+        Run y = new Run(26, "it brings up each switch").is(0, "addSwitch").call("stop").is(IDLE, "start")
+                .is(BARRIER, "deliver", 0, 0).is(0, "answer", 0).is(IDLE, "controllerAt", 0).is(2, "switchAt", 0, 2);
+        y.is(1, "addSwitch").is(0, "switchAt", 1, 2).is(NONE, "deliver", 1, 0).is(2, "count", 13);
     }
 
     // ---- promises 27 and 28
